@@ -1675,7 +1675,11 @@ public final class StreamHouse {
                     break;
                 case SPANS:
                 case GAPS:
-                    foldRow(op, task, row);
+                    if (measure(op, row)) {
+                        foldRow(op, task, row);
+                    } else {
+                        putAside(task, row);
+                    }
                     break;
                 case JOIN:
                     joinRow(op, task, input, row);
@@ -1788,11 +1792,8 @@ public final class StreamHouse {
             pool.release(row);
         }
 
+        /** Puts the amounts of a row to its KEY's spans or session. */
         private void foldRow(Op op, Task task, Cell row) {
-            if (!measure(op, row)) {
-                putAside(task, row);
-                return;
-            }
             row.key = row.columns[op.byFirst];
             if (op.kind == GAPS) {
                 Cell session = newFold(op, row, row.time);
