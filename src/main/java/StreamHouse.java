@@ -374,12 +374,12 @@ public final class StreamHouse {
 
         final long[] columns = new long[MOST_COLUMNS];
         Cell next;
-        /** Of a thing what it is; of a row that waits in a match its VALUES as bits; of a PARTIAL one how many it has. */
+        /** Of a thing what it is; of a match's row its VALUES as bits; of a PARTIAL one how many it went through. */
         int sort;
         /** Of a thing in a box the channel that it goes to. */
         int goal;
         int set;
-        /** Of a row or a watermark its time; of a span or a session its last time; of a KEY of unique when it went on. */
+        /** Of a row or a watermark its time; of a span or a session its last one; of a KEY of unique when it went on. */
         long time;
         /** Of a session or a PARTIAL one its first time; of a row that waits in a top its span's last time. */
         long from;
