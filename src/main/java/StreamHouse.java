@@ -379,7 +379,7 @@ public final class StreamHouse {
         /** Of a thing in a box the channel that it goes to. */
         int goal;
         int set;
-        /** Of a row or a watermark its time; of a span or a session its last one; of a KEY of unique when it went on. */
+        /** Of a row or a watermark its time; of a span or a session its last one; of a KEY when it went on. */
         long time;
         /** Of a session or a PARTIAL one its first time; of a row that waits in a top its span's last time. */
         long from;
@@ -412,7 +412,7 @@ public final class StreamHouse {
             return first == null ? null : cutBehind(null);
         }
 
-        /** Takes out the cell behind another one, the first cell for null; answers the one that is there then. */
+        /** Takes the cell behind another one out of the chain, the first cell for null. */
         Cell cutBehind(Cell before) {
             Cell cut = before == null ? first : before.next;
             if (cut == null) {
@@ -1689,7 +1689,8 @@ public final class StreamHouse {
                     break;
                 case TOP:
                     row.key = row.columns[op.byFirst];
-                    row.from = Math.floorDiv(row.time, (long) op.span) * op.span + op.span - 1;
+                    long span = Math.max(1, op.span);
+                    row.from = Math.floorDiv(row.time, span) * span + span - 1;
                     keep(op, task, 0, row);
                     break;
                 default:
@@ -1802,7 +1803,7 @@ public final class StreamHouse {
                 countRecord();
                 task.a.insert(session, Chain.BY_FOLDS, 0);
             } else {
-                long step = op.step;
+                long step = Math.max(1, op.step);
                 long lastStart = Math.floorDiv(row.time, step) * step;
                 long firstStart = Math.floorDiv(row.time - op.span, step) * step + step;
                 for (long start = firstStart; start <= lastStart; start += step) {

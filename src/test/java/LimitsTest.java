@@ -4,6 +4,8 @@ public final class LimitsTest {
 
     public static void main(String[] args) {
         records();
+        exactly();
+        passingThrough();
         partsOfAMark();
         boxes();
         rows();
@@ -65,6 +67,50 @@ public final class LimitsTest {
         y.mark();
         Check.settle(y);
         Check.same("nor in a mark", y.told(5), 1);
+    }
+
+    /** 4000 records are not too many, neither in states nor in a mark; one more is. */
+    private static void exactly() {
+        StreamHouse x = Check.house("a = source 0 (k v) lag 1000; b = source 1 (k v) lag 1000; c = source 2 (k v) lag 1000;"
+            + "d = source 3 (k v) lag 1000; e = union a b; f = union c d; g = union e f; h = filter g : v = 0; i = filter g : v = 1;"
+            + "j = fold h by k span 8 step 1 : n = count; l = fold h by k span 8 step 1 : n = count; m = top 1 i by k span 1000; output m;");
+        for (int i = 0; i < 250; i++) {
+            x.give(i % 4, 500, i, 0, 0, 0);
+        }
+        x.start(1, 8, 1);
+        Check.settle(x);
+        Check.same("250 rows in 8 spans of two folds each", held(x), 4000);
+        Check.same("they are not too many", x.told(8), 0);
+        x.mark();
+        Check.settle(x);
+        Check.same("nor in a mark", x.told(5), 1);
+        Check.same("fail", x.fail(), 1);
+        Check.same("they are there again", held(x), 4000);
+        x.give(3, 500, 7, 1, 0, 0);
+        turnsTillBroken(x);
+        isBroken("4001 records", x);
+    }
+
+    /** Records that are over do not count any more: 4096 rows of a join go through each operator. */
+    private static void passingThrough() {
+        String[] operators = {"f = fold d by p span 1 step 1 : n = count; ", "f = fold d by p gap 1 : n = count; ",
+            "f = match d by p : 1 then 0 within 1; ", "f = unique d by p within 1; ", "f = top 1 d by p span 1; ",
+            "f = look d b by p l; ", "f = join d b by p l within 0 0; ", "f = join b d by l p within - 3 3; "};
+        for (String operator : operators) {
+            StreamHouse x = Check.house("a = source 0 (k v) lag 0; b = source 1 (l w) lag 0; j = join a b by k l within - 64 64;"
+                + "d = map j : p = 1000 + v * 100 + w; " + operator + "output a;");
+            x.start(1, 8, 1);
+            for (int i = 0; i < 64; i++) {
+                x.give(0, i, 1, i, 0, 0);
+                x.give(1, i, 1, i, 0, 0);
+                Check.settle(x);
+            }
+            Check.closeAll(x);
+            Check.settle(x);
+            Check.same("broken: " + operator, x.told(8), 0);
+            Check.same("rows through it: " + operator, x.channel(4, 5) + x.channel(3, 5) >= 4096 ? 1 : 0, 1);
+            Check.same("records that are left: " + operator, x.task(4, 4), operator.contains("look") ? 1 : 0);
+        }
     }
 
     /** Four folds of a and four of b have 4096 records in their parts, though never all at once. */

@@ -169,8 +169,29 @@ public final class MarksTest {
         Check.same("it was kept", Check.rows(y, 0, 2), "5:1,1<0>");
     }
 
-    /** Marks that are given up have numbers as well. */
+    /** Marks that are given up have numbers as well, and nothing of them is left. */
     private static void givenUp() {
+        StreamHouse f = Check.house("a = source 0 (k v) lag 99; f = fold a by k span 4 step 2 : n = count; output a; output f; output a; output a;");
+        Check.give(f, Check.row(0, 5, 1, 10), Check.row(0, 6, 1, 10));
+        f.start(2, 8, 3);
+        Check.settle(f);
+        for (int i = 0; i < 5; i++) {
+            f.mark();
+            // the fold has its part, while an output has not
+            for (int k = 0; k < 1000 && f.told(6) != 0 && f.task(1, 8) + f.task(2, 8) < 2; k++) {
+                f.turn(1);
+            }
+            f.fail();
+            Check.settle(f);
+        }
+        f.mark();
+        Check.settle(f);
+        Check.same("the latest mark", f.told(5) > 5 ? 1 : 0, 1);
+        Check.same("spans of the mark", f.records(1, 1), 3);
+        Check.finish(f);
+        for (int o = 0; o < 4; o++) {
+            Check.same("rows of output " + o, Check.rows(f, o, 2), o == 1 ? "5:1,1<0> 7:1,2<0,1> 9:1,1<1>" : "5:1,10<0> 6:1,10<1>");
+        }
         StreamHouse x = Check.house(PLAIN);
         x.start(1, 1, 1);
         Check.same("a mark", x.mark(), 1);
@@ -276,6 +297,19 @@ public final class MarksTest {
         x.mark();
         Check.settle(x);
         x.rescale(2);
+        aside(x, 3, 0);
+        x.start(4, 8, 2);
+        Check.settle(x);
+        x.mark();
+        Check.settle(x);
+        aside(x, 1, 1, 1, 0);
+        for (int i = 0; i < 3; i++) {
+            x.rescale(2);
+            x.mark();
+            Check.settle(x);
+            aside(x, 3, 0);
+        }
+        x.fail();
         aside(x, 3, 0);
     }
 

@@ -13,6 +13,7 @@ public final class OperatorsTest {
         unique();
         top();
         chained();
+        lookAfterDropping();
         sets();
         waiting();
         Check.end();
@@ -76,6 +77,10 @@ public final class OperatorsTest {
             Check.row(0, 5, 1, 4), Check.row(0, 20, 1, 7));
         out(A + "f = fold a by k gap 3 : n = count; output f;", 2, "3:1,1<0> 6:1,1<1>",
             Check.row(0, 1, 1, 1), Check.row(0, 4, 1, 2));
+        out(A + "f = fold a by k gap 3 : n = count; output f;", 2, "3:1,1<1> 6:1,1<0>",
+            Check.row(0, 4, 1, 1), Check.row(0, 1, 1, 2));
+        out(A + "f = fold a by k gap 3 : n = count; output f;", 2, "5:1,2<0,1>",
+            Check.row(0, 3, 1, 1), Check.row(0, 1, 1, 2));
         out(A + "f = fold a by k gap 1 : n = count; output f;", 2, "3:1,2<0,1> 4:1,1<2>",
             Check.row(0, 3, 1, 1), Check.row(0, 3, 1, 2), Check.row(0, 4, 1, 2));
     }
@@ -94,6 +99,11 @@ public final class OperatorsTest {
         out(AB + "j = look a b by k l; output j;", 4, "5:1,1,1,3<0,66> 7:1,9,1,3<3,66>",
             Check.row(0, 5, 1, 1), Check.row(0, 2, 1, 2), Check.row(0, 8, 2, 3), Check.row(0, 7, 1, 9),
             Check.row(1, 3, 1, 1), Check.row(1, 5, 1, 2), Check.row(1, 5, 1, 3), Check.row(1, 9, 2, 4), Check.row(1, 5, 1, -3));
+        // the second input's rows are in order by all of their columns, the first one's by theirs
+        out("a = source 0 (k) lag 9; b = source 1 (l w x) lag 9; j = look a b by k l; output j;", 4, "5:1,1,2,8<0,65>",
+            Check.row(0, 5, 1), Check.row(1, 4, 1, 2, 7), Check.row(1, 4, 1, 2, 8), Check.row(1, 4, 1, 1, 9));
+        out("a = source 0 (k) lag 0; b = source 1 (l w x) lag 0; j = look a b by k l; output j;", 4, "9:1,1,2,8<0,65>",
+            Check.row(0, 9, 1), Check.row(1, 4, 1, 2, 7), Check.row(1, 4, 1, 2, 8), Check.row(1, 4, 1, 1, 9), Check.row(1, 10, 1, 1, 1));
         // of equal ones that which came first
         out(AB + "j = look a b by k l; output j;", 4, "5:1,1,1,2<0,64>",
             Check.row(0, 5, 1, 1), Check.row(1, 4, 1, 2), Check.row(1, 4, 1, 2));
@@ -143,6 +153,17 @@ public final class OperatorsTest {
             Check.row(0, 2, 1, 0), Check.row(0, 3, 1, 0), Check.row(1, 5, 1, 7), Check.row(1, 7, 1, 8));
     }
 
+    /** Of equal rows the first one is kept, and looked up later. */
+    private static void lookAfterDropping() {
+        StreamHouse x = Check.house("a = source 0 (k v) lag 0; b = source 1 (l w) lag 0; j = look a b by k l; output j;");
+        x.start(2, 3, 8);
+        Check.give(x, Check.row(0, 20, 2, 0), Check.row(1, 4, 1, 5), Check.row(1, 4, 1, 5), Check.row(1, 3, 1, 9), Check.row(1, 20, 2, 0));
+        Check.settle(x);
+        Check.give(x, Check.row(0, 21, 1, 7));
+        Check.finish(x);
+        Check.same("rows", Check.rows(x, 0, 4), "20:2,0,2,0<0,67> 21:1,7,1,5<1,64>");
+    }
+
     /** How many sets are made. */
     private static void sets() {
         made("output a;", 3);
@@ -175,6 +196,9 @@ public final class OperatorsTest {
             {0, 10, 1}, {1, 10, 2}, {0, 13, 3}, {1, 13, 3}, {0, 14, 4}, {1, 14, 4}, {0, 40, 5}, {1, 40, 2}});
         held("j = look a b by k l; output j;", new int[][] {
             {0, 10, 1}, {1, 10, 2}, {0, 11, 3}, {1, 11, 3}, {1, 12, 4}, {0, 12, 3}, {0, 40, 4}, {1, 40, 3}});
+        // equal ones: the first one stays
+        held("j = look a b by k l; output j;", new int[][] {
+            {1, 10, 1}, {1, 10, 2}, {1, 10, 3}, {1, 12, 4}, {0, 13, 3}, {0, 20, 4}, {1, 21, 3}});
         StreamHouse x = Check.house("a = source 0 (k v) lag 0; m = match a by k : v then v within 2; u = unique a by k within 2;"
             + "t = top 1 a by k span 4; output a;");
         x.start(1, 8, 5);

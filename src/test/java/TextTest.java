@@ -102,6 +102,8 @@ public final class TextTest {
         fault(7, HEAD + "b = source ^0 (k) lag 0;");
         fault(7, "a = source 0 (k) lag ^1001; output a;");
         fault(7, HEAD + "b = fold a by k span ^0 step 1 : n = count; output b;");
+        fault(7, HEAD + "b = fold a by k span ^1001 step 1000 : n = count; output b;");
+        good(HEAD + "b = fold a by k span 1000 step 1000 : n = count; output b;", 3);
         fault(7, HEAD + "b = fold a by k span 5 step ^6 : n = count; output b;");
         fault(7, HEAD + "b = fold a by k span 17 step ^2 : n = count; output b;");
         good(HEAD + "b = fold a by k span 16 step 2 : n = count; output b;", 3);
@@ -233,6 +235,9 @@ public final class TextTest {
 
     private static void values() {
         value("k + v * 2", 1, false);
+        value("0 | 2 > 1 + 2 * (".repeat(10) + "0" + ")".repeat(10), 0, false);
+        value("1 & 0 < 1 + 2 * (".repeat(10) + "3" + ")".repeat(10), 1, false);
+        value("k" + "+k".repeat(600), 4207, false);
         value("(k + v) * 2", 8, false);
         value("k - v - 1", 9, false);
         value("v / 2", -1, false);
