@@ -8,6 +8,7 @@ public final class LimitsTest {
         passingThrough();
         partsOfAMark();
         boxes();
+        boxesExactly();
         rows();
         sets();
         keepsGoing();
@@ -94,11 +95,11 @@ public final class LimitsTest {
     /** Records that are over do not count any more: 4096 rows of a join go through each operator. */
     private static void passingThrough() {
         String[] operators = {"f = fold d by p span 1 step 1 : n = count; ", "f = fold d by p gap 1 : n = count; ",
-            "f = match d by p : 1 then 0 within 1; ", "f = unique d by p within 1; ", "f = top 1 d by p span 1; ",
+            "f = match d by p : 1 then 0 within 1; ", "f = match d by q : 1 then 1 within 1000; ", "f = unique d by p within 1; ", "f = top 1 d by p span 1; ",
             "f = look d b by p l; ", "f = join d b by p l within 0 0; ", "f = join b d by l p within - 3 3; "};
         for (String operator : operators) {
             StreamHouse x = Check.house("a = source 0 (k v) lag 0; b = source 1 (l w) lag 0; j = join a b by k l within - 64 64;"
-                + "d = map j : p = 1000 + v * 100 + w; " + operator + "output a;");
+                + "d = map j : p = 1000 + v * 100 + w, q = 1; " + operator + "output a;");
             x.start(1, 8, 1);
             for (int i = 0; i < 64; i++) {
                 x.give(0, i, 1, i, 0, 0);
@@ -176,6 +177,27 @@ public final class LimitsTest {
             y.turn(5000);
         }
         Check.same("2048 things in boxes are not too many", y.told(8), 0);
+    }
+
+    /** A fold's rows and its watermark go to two outputs at once. */
+    private static void boxesExactly() {
+        for (int spans = 1999; spans <= 2000; spans++) {
+            StreamHouse x = Check.house("a = source 0 (k v) lag 1000; b = source 1 (k v) lag 1000; c = source 2 (k v) lag 1000;"
+                + "d = source 3 (k v) lag 1000; e = union a b; f = union c d; g = union e f;"
+                + "h = fold g by k span 8 step 1 : n = count; i = filter h : 0; j = filter h : 0; output i; output j;");
+            for (int i = 0; i < 248; i++) {
+                x.give(i % 4, 500, i, 0, 0, 0);
+            }
+            // two rows of one KEY that have a span in common, or none
+            x.give(0, 500, 999, 0, 0, 0);
+            x.give(1, spans == 1999 ? 507 : 508, 999, 0, 0, 0);
+            Check.closeAll(x);
+            x.start(1, 8, 2);
+            for (int i = 0; i < 30; i++) {
+                x.turn(5000);
+            }
+            Check.same(spans + " rows and a watermark, twice", x.told(8), spans == 1999 ? 0 : 1);
+        }
     }
 
     private static void rows() {

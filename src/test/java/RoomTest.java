@@ -3,7 +3,7 @@ import java.lang.management.ManagementFactory;
 /** All calls of one run live in one room: what 512 of the dearest calls make stays far below it. */
 public final class RoomTest {
     /** Seven million fields and elements of eight bytes each are some 58 million. */
-    private static final long MOST_BYTES = 20_000_000L;
+    private static final long MOST_BYTES = 8_000_000L;
     private static final String TWO = "a = source 0 (k v) lag 1000; b = source 1 (l w) lag 1000; ";
     private static final String[] JOBS = {
         TWO + "f = fold a by v span 1000 step 125 : n = count; g = fold a by v span 800 step 100 : n = count;"

@@ -280,5 +280,16 @@ public final class RunTest {
             big.give(1, 5, 1, 0, 0, 0);
         }
         Check.same("4096 rows of a join are too many", big.onePass() ? 1 : 0, 0);
+        for (int folds = 7; folds <= 8; folds++) {
+            StringBuilder text = new StringBuilder("a = source 0 (k) lag 0; ");
+            for (int i = 0; i < folds; i++) {
+                text.append((char) ('f' + i)).append(" = fold a by k span 8 step 1 : n = count; ");
+            }
+            StreamHouse x8 = Check.house(text + "z = filter f : 0; output z;");
+            for (int i = 0; i < 64; i++) {
+                x8.give(0, 5, i, 0, 0, 0);
+            }
+            Check.same("512 rows of " + folds + " folds each", x8.onePass() ? 1 : 0, folds == 7 ? 1 : 0);
+        }
     }
 }

@@ -95,6 +95,8 @@ public final class TextTest {
         fault(6, HEAD + "b = fold a by k gap 3 : ^k = count; output b;");
         fault(6, HEAD + "b = join a ^a by k k within 0 0; output b;");
         fault(6, HEAD + "b = look a ^a by k k; output b;");
+        fault(6, HEAD + "b = source 1 (k) lag 0; c = look a ^b by k k; output c;");
+        fault(6, HEAD + "b = source 1 (w v) lag 0; c = join a ^b by k w within 0 0; output c;");
         fault(6, HEAD + "b = map a : rank = k; c = top 1 ^b by rank span 5; output c;");
         fault(6, HEAD + "b = map a : from = k; c = match b by ^from : 1 then 1 within 3; output c;");
         fault(6, HEAD + "b = map a : to = k; c = match b by ^to : 1 then 1 within 3; output c;");
@@ -135,6 +137,8 @@ public final class TextTest {
         fault(9, HEAD + "b = filter a : ((((((((((^(k))))))))))); output b;");
         good(HEAD + "b = filter a : -!-!-!-!-!k - -!-!-!-!-!k; output b;", 3);
         fault(9, HEAD + "b = filter a : -!-!-!-!-!^(k); output b;");
+        fault(9, HEAD + "b = filter a : -!-!-!-!-!^-k; output b;");
+        fault(9, HEAD + "b = filter a : -!-!-!-!-!^!k; output b;");
         fault(9, HEAD + "b = filter a : " + "1 ? ".repeat(10) + "1 ^? 1 : 1; output b;");
         good(HEAD + "b = filter a : " + "1 ? 2 : ".repeat(10) + "1; output b;", 3);
         fault(9, HEAD + "b = filter a : " + "1 ? 2 : ".repeat(10) + "1 ^? 2 : 3; output b;");
@@ -253,6 +257,10 @@ public final class TextTest {
         value("time", 20, false);
         value("k < 8", 1, false);
         value("k > 8", 0, false);
+        value("k > 6", 1, false);
+        value("k > 7", 0, false);
+        value("k < 7", 0, false);
+        value("k = 6", 0, false);
         value("k = 7", 1, false);
         value("k = 7 & v", 1, false);
         value("k + 1 = 8", 1, false);
