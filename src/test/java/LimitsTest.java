@@ -11,6 +11,7 @@ public final class LimitsTest {
         boxesExactly();
         rows();
         sets();
+        setsExactly();
         keepsGoing();
         Check.end();
     }
@@ -95,6 +96,7 @@ public final class LimitsTest {
     /** Records that are over do not count any more: 4096 rows of a join go through each operator. */
     private static void passingThrough() {
         String[] operators = {"f = fold d by p span 1 step 1 : n = count; ", "f = fold d by p gap 1 : n = count; ",
+            "f = fold d by q gap 1000 : n = count; ",
             "f = match d by p : 1 then 0 within 1; ", "f = match d by q : 1 then 1 within 1000; ", "f = unique d by p within 1; ", "f = top 1 d by p span 1; ",
             "f = look d b by p l; ", "f = join d b by p l within 0 0; ", "f = join b d by l p within - 3 3; "};
         for (String operator : operators) {
@@ -239,6 +241,20 @@ public final class LimitsTest {
         Check.same("it is broken again", x.told(8), 1);
         x.start(1, 8, 1);
         Check.same("a run from the beginning is not", x.told(8) + x.told(12), 0);
+    }
+
+    /** Four sources read 64 rows each, again and again. */
+    private static void setsExactly() {
+        StreamHouse x = given(TWO + "c = source 2 (k v) lag 1000; d = source 3 (k v) lag 1000; output a;", 4, true);
+        x.start(1, 8, 1);
+        for (int i = 1; i <= 117; i++) {
+            x.turn(5000);
+            Check.same("sets", x.told(12), 256 * i);
+            x.fail();
+        }
+        x.turn(5000);
+        Check.same("30000 sets", x.told(12), 30000);
+        Check.same("one more is too many", x.told(8), 1);
     }
 
     /** Many failures, marks and runs use the same room again. */

@@ -14,6 +14,8 @@ public final class OperatorsTest {
         top();
         chained();
         lookAfterDropping();
+        joinAfterDropping();
+        aside();
         sets();
         waiting();
         Check.end();
@@ -162,6 +164,38 @@ public final class OperatorsTest {
         Check.give(x, Check.row(0, 21, 1, 7));
         Check.finish(x);
         Check.same("rows", Check.rows(x, 0, 4), "20:2,0,2,0<0,67> 21:1,7,1,5<1,64>");
+    }
+
+    /** Rows that can't be joined any more go, whichever came before them. */
+    private static void joinAfterDropping() {
+        StreamHouse x = Check.house(AB + "j = join a b by k l within 0 2; i = join b a by l k within - 2 0; output j; output i;");
+        x.start(2, 3, 8);
+        Check.give(x, Check.row(0, 20, 1, 1), Check.row(0, 12, 1, 2), Check.row(0, 25, 1, 3), Check.row(1, 25, 1, 4));
+        Check.settle(x);
+        long held = 0;
+        for (int t = 2; t < 6; t++) {
+            held += x.task(t, 4);
+        }
+        Check.same("rows at 20 and 25, twice", held, 6);
+        Check.give(x, Check.row(1, 21, 1, 5));
+        Check.finish(x);
+        Check.same("rows of j", Check.rows(x, 0, 4), "21:1,1,1,5<0,65> 25:1,3,1,4<2,64>");
+        Check.same("rows of i", Check.rows(x, 1, 4), "21:1,5,1,1<0,65> 25:1,4,1,3<2,64>");
+    }
+
+    /** Rows that go aside are counted, and nothing else comes of them. */
+    private static void aside() {
+        String[] operators = {"filter a : 1 / v", "map a : x = 1, y = 1 % v", "fold a by k gap 3 : n = count, x = most 1 / v",
+            "fold a by k span 2 step 1 : n = count, x = sum 1 / v, y = count", "match a by k : 1 then 1 then 1 / v within 4"};
+        for (String operator : operators) {
+            StreamHouse x = Check.house(A + "f = " + operator + "; output f;");
+            Check.give(x, Check.row(0, 3, 1, 0), Check.row(0, 4, 1, 0));
+            x.start(1, 2, 3);
+            Check.finish(x);
+            Check.same("aside of " + operator, x.task(1, 6), 2);
+            Check.same("rows of " + operator, x.visible(0), 0);
+            Check.same("right", x.onePass() ? 1 : 0, 1);
+        }
     }
 
     /** How many sets are made. */

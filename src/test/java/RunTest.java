@@ -221,6 +221,25 @@ public final class RunTest {
         Check.finish(x);
         Check.same("first mark", x.told(5), 1);
         Check.same("rows", Check.rows(x, 0, 2), "5:1,10<0>");
+        StreamHouse y = Check.house("a = source 0 (k v) lag 9; b = source 1 (l w) lag 9; f = fold a by k gap 5 : n = count;"
+            + "j = join a b by k l within 0 9; output j;");
+        for (int seed = 0; seed < 20; seed++) {
+            for (int i = 0; i < 3; i++) {
+                y.give(0, i, 1, seed, 0, 0);
+                y.give(1, i, 1, seed, 0, 0);
+            }
+            y.start(1 + seed % 4, 1, seed);
+            for (int t = 0; t < y.told(1); t++) {
+                task(y, t, y.task(t, 0), y.task(t, 1), -1, 0, 0, 0, 0, y.task(t, 0) < 2 ? 0 : -1, 0);
+            }
+            for (int c = 0; c < y.told(2); c++) {
+                channel(y, c, y.channel(c, 0), y.channel(c, 1), 0, -1, 0, 0);
+            }
+            told(y, 5, y.told(1), y.told(2), 0, 0, 0, 0, 0, 0, 0, 0, 0, 0, 1, 0);
+            y.turn(50 + seed);
+            y.mark();
+            y.turn(5);
+        }
     }
 
     /** A task's watermark is the least of its channels; a fold's rows come before its own goes on. */

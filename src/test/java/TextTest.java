@@ -120,6 +120,8 @@ public final class TextTest {
         fault(7, HEAD + "b = top ^10 a by k span 5; output b;");
         fault(8, HEAD + "b = source 1 (v k) lag 0; c = union a ^b; output c;");
         fault(8, HEAD + "b = source 1 (k) lag 0; c = union a ^b; output c;");
+        fault(8, HEAD + "b = source 1 (w v) lag 0; c = union a ^b; output c;");
+        fault(8, HEAD + "b = source 1 (k w) lag 0; c = union a ^b; output c;");
         fault(8, "a = source 0 (k v w x ^y) lag 0; output a;");
         fault(8, HEAD + "b = fold a by k gap 3 : n = count, m = count, o = count, p = count, ^q = count; output b;");
         fault(8, HEAD + "b = match a by k : 1 then 1 then 1 then 1 ^then 1 within 3; output b;");
