@@ -889,6 +889,7 @@ public final class StreamHouse {
      * as the first FAULT is the one that counts.
      */
     private static final class Parser {
+        /** In the order in which the document tells them, a byte for each letter, as NAMES are kept. */
         private static final long[] KEYWORDS = {
             0x736f75726365L, 0x6c6167L, 0x66696c746572L, 0x6d6170L, 0x756e696f6eL, 0x666f6c64L, 0x6279L,
             0x7370616eL, 0x73746570L, 0x676170L, 0x6a6f696eL, 0x77697468696eL, 0x6c6f6f6bL, 0x6d61746368L,
