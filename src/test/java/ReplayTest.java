@@ -4,8 +4,8 @@ import java.nio.file.Files;
 import java.nio.file.Path;
 
 /**
- * Runs of calls under src/test/runs, each with the answers of another model of the document, which was written apart
- * from the class: a line is a call, and behind = its answer, or the exception that it throws.
+ * Runs of calls under src/test/runs, each with the answers of another model of the document: of other code, but by the
+ * same hand, so it would share a misreading. A line is a call, and behind = its answer, or the exception that it throws.
  */
 public final class ReplayTest {
     public static void main(String[] args) throws IOException {
