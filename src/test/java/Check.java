@@ -66,7 +66,7 @@ final class Check {
         }
     }
 
-    static void feed(StreamHouse x, String text) {
+    static void feed(House x, String text) {
         for (int at = 0; at < text.length(); at += 8) {
             int n = Math.min(8, text.length() - at);
             long bytes = 0;
@@ -77,8 +77,8 @@ final class Check {
         }
     }
 
-    static StreamHouse house(String text) {
-        StreamHouse x = new StreamHouse();
+    static House house(String text) {
+        House x = new House();
         feed(x, text);
         int operators = x.job();
         if (operators < 0) {
@@ -87,8 +87,26 @@ final class Check {
         return x;
     }
 
+    /** A text with a ^ before the token at which its fault is. */
+    static void fault(int due, String marked) {
+        int place = marked.indexOf('^');
+        House x = new House();
+        same("fault before a text", x.fault(), 0);
+        feed(x, marked.replace("^", ""));
+        same("job: " + marked, x.job(), -1 - place);
+        same("fault: " + marked, x.fault(), due);
+        same("no job", x.told(0), 0);
+    }
+
+    static void good(String text, int operators) {
+        House x = new House();
+        feed(x, text);
+        same("job: " + text, x.job(), operators);
+        same("fault: " + text, x.fault(), 0);
+    }
+
     /** Rows are: source, time, columns. */
-    static void give(StreamHouse x, long[]... rows) {
+    static void give(House x, long[]... rows) {
         for (long[] r : rows) {
             x.give((int) r[0], (int) r[1], at(r, 2), at(r, 3), at(r, 4), at(r, 5));
         }
@@ -102,7 +120,7 @@ final class Check {
         return numbers;
     }
 
-    static void closeAll(StreamHouse x) {
+    static void closeAll(House x) {
         for (int s = 0; s < 4; s++) {
             try {
                 x.close(s);
@@ -113,14 +131,14 @@ final class Check {
     }
 
     /** Turns till nothing is taken any more. */
-    static void settle(StreamHouse x) {
+    static void settle(House x) {
         for (int i = 0; i < 200 && x.turn(2000) > 0; i++) {
             continue;
         }
     }
 
     /** All sources are closed, all rows go through, and a mark makes them visible. */
-    static void finish(StreamHouse x) {
+    static void finish(House x) {
         closeAll(x);
         settle(x);
         x.mark();
@@ -128,7 +146,8 @@ final class Check {
     }
 
     /** The visible rows of an output: time:columns, and in angles what they were made of. */
-    static String rows(StreamHouse x, int output, int columns) {
+    static String rows(House of, int output, int columns) {
+        House x = of.twin();
         StringJoiner all = new StringJoiner(" ");
         for (int i = 0; i < x.visible(output); i++) {
             StringJoiner row = new StringJoiner(",");

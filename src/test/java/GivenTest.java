@@ -1,14 +1,14 @@
 /** Promises 1, 6, 7, 23: a new object, give, close, clear. */
 public final class GivenTest {
     public static void main(String[] args) {
-        isNew("a new object", new StreamHouse());
+        isNew("a new object", new House());
         giving();
         closing();
         clearing();
         Check.end();
     }
 
-    private static void isNew(String what, StreamHouse x) {
+    private static void isNew(String what, House x) {
         for (int i = 0; i <= 14; i++) {
             Check.same(what + ": told(" + i + ")", x.told(i), 0);
         }
@@ -38,7 +38,7 @@ public final class GivenTest {
     }
 
     private static void giving() {
-        StreamHouse x = Check.house("a = source 2 (k v) lag 0; b = source 0 (k v w x) lag 0; output a; output b;");
+        House x = Check.house("a = source 2 (k v) lag 0; b = source 0 (k v w x) lag 0; output a; output b;");
         Check.same("a place", x.give(2, 0, 7, 8, 9, 10), 0);
         Check.same("a place", x.give(2, 1000000, 8, 9, 10, 11), 1);
         Check.same("a place of another source", x.give(0, 1, 1, 2, 3, 4), 0);
@@ -65,7 +65,7 @@ public final class GivenTest {
     }
 
     private static void closing() {
-        StreamHouse x = Check.house("a = source 2 (k) lag 0; output a;");
+        House x = Check.house("a = source 2 (k) lag 0; output a;");
         Check.index("source 4", () -> x.close(4) ? 1 : 0);
         Check.index("source -1", () -> x.close(-1) ? 1 : 0);
         Check.state("source 0, which the job has not", () -> x.close(0) ? 1 : 0);
@@ -77,7 +77,7 @@ public final class GivenTest {
     }
 
     private static void clearing() {
-        StreamHouse x = Check.house("a = source 0 (k) lag 0; output a;");
+        House x = Check.house("a = source 0 (k) lag 0; output a;");
         x.give(0, 3, 1, 0, 0, 0);
         x.start(2, 2, 2);
         Check.finish(x);

@@ -9,16 +9,20 @@ public final class LimitsTest {
         partsOfAMark();
         boxes();
         boxesExactly();
-        rows();
-        sets();
+        rowsExactly();
+        visibleRowsCount();
+        preparedRowsCount();
         setsExactly();
+        setsOfOneTurn();
+        brokenTurnCounts();
+        beginsAgain();
         keepsGoing();
         Check.end();
     }
 
     /** Rows of sources 0 .. n - 1, all of one KEY or each of its own. */
-    private static StreamHouse given(String text, int n, boolean oneKey) {
-        StreamHouse x = Check.house(text);
+    private static House given(String text, int n, boolean oneKey) {
+        House x = Check.house(text);
         for (int s = 0; s < n; s++) {
             for (int i = 0; i < 64; i++) {
                 x.give(s, i, oneKey ? 1 : 100 * s + i, 100 * s + i, 0, 0);
@@ -27,15 +31,28 @@ public final class LimitsTest {
         return x;
     }
 
-    private static int turnsTillBroken(StreamHouse x) {
-        int took = 0;
-        for (int i = 0; i < 100 && x.told(8) == 0; i++) {
-            took += x.turn(5000);
+    private static void turnsTillBroken(House x) {
+        for (int i = 0; i < 30 && x.told(8) == 0; i++) {
+            x.turn(5000);
         }
-        return took;
     }
 
-    private static void isBroken(String what, StreamHouse x) {
+    /** It and what it does next are brought to the turn before the one that breaks it. */
+    private static House justBefore(House x) {
+        House broken = x.twin();
+        turnsTillBroken(broken);
+        Check.same("it will be broken", broken.told(8), 1);
+        House before = x.twin();
+        int left = broken.told(3) - before.told(3) - 1;
+        while (left > 0) {
+            before.turn(Math.min(5000, left));
+            left -= 5000;
+        }
+        Check.same("it is not broken yet", before.told(8), 0);
+        return before;
+    }
+
+    private static void isBroken(String what, House x) {
         Check.same(what + " is broken", x.told(8), 1);
         int turns = x.told(3);
         int idle = x.told(4);
@@ -54,14 +71,14 @@ public final class LimitsTest {
 
     private static void records() {
         String spans = " by k span 1000 step 125 : n = count; ";
-        StreamHouse x = given("a = source 0 (k v) lag 1000; f = fold a" + spans + "g = fold a" + spans + "h = fold a" + spans
+        House x = given("a = source 0 (k v) lag 1000; f = fold a" + spans + "g = fold a" + spans + "h = fold a" + spans
             + "i = fold a" + spans + "j = fold a" + spans + "l = fold a" + spans + "m = fold a" + spans + "n = fold a" + spans
             + "output f;", 1, false);
         // 64 rows, 8 spans and 8 folds are 4096 records
         x.start(1, 8, 3);
         turnsTillBroken(x);
         isBroken("4096 records", x);
-        StreamHouse y = given("a = source 0 (k v) lag 1000; f = fold a" + spans + "g = fold a" + spans + "h = fold a" + spans
+        House y = given("a = source 0 (k v) lag 1000; f = fold a" + spans + "g = fold a" + spans + "h = fold a" + spans
             + "i = fold a" + spans + "j = fold a" + spans + "l = fold a" + spans + "m = fold a" + spans + "output f;", 1, false);
         y.start(1, 8, 3);
         turnsTillBroken(y);
@@ -73,7 +90,7 @@ public final class LimitsTest {
 
     /** 4000 records are not too many, neither in states nor in a mark; one more is. */
     private static void exactly() {
-        StreamHouse x = Check.house("a = source 0 (k v) lag 1000; b = source 1 (k v) lag 1000; c = source 2 (k v) lag 1000;"
+        House x = Check.house("a = source 0 (k v) lag 1000; b = source 1 (k v) lag 1000; c = source 2 (k v) lag 1000;"
             + "d = source 3 (k v) lag 1000; e = union a b; f = union c d; g = union e f; h = filter g : v = 0; i = filter g : v = 1;"
             + "j = fold h by k span 8 step 1 : n = count; l = fold h by k span 8 step 1 : n = count; m = top 1 i by k span 1000; output m;");
         for (int i = 0; i < 250; i++) {
@@ -100,7 +117,7 @@ public final class LimitsTest {
             "f = match d by p : 1 then 0 within 1; ", "f = match d by q : 1 then 1 within 1000; ", "f = unique d by p within 1; ", "f = top 1 d by p span 1; ",
             "f = look d b by p l; ", "f = join d b by p l within 0 0; ", "f = join b d by l p within - 3 3; "};
         for (String operator : operators) {
-            StreamHouse x = Check.house("a = source 0 (k v) lag 0; b = source 1 (l w) lag 0; j = join a b by k l within - 64 64;"
+            House x = Check.house("a = source 0 (k v) lag 0; b = source 1 (l w) lag 0; j = join a b by k l within - 64 64;"
                 + "d = map j : p = 1000 + v * 100 + w, q = 1; " + operator + "output a;");
             x.start(1, 8, 1);
             for (int i = 0; i < 64; i++) {
@@ -116,46 +133,58 @@ public final class LimitsTest {
         }
     }
 
-    /** Four folds of a and four of b have 4096 records in their parts, though never all at once. */
+    /**
+     * "as many in all parts of a mark together (looked at as a part is taken, before it is written)": four folds of a have
+     * their parts, and end, before the last row of b, which has been read already, comes to four folds of b.
+     */
     private static void partsOfAMark() {
-        String spans = " span 1000 step 125 : n = count; ";
-        String text = TWO + "f = fold a by k" + spans + "g = fold a by k" + spans + "h = fold a by k" + spans + "i = fold a by k" + spans
-            + "m = fold b by l" + spans + "n = fold b by l" + spans + "o = fold b by l" + spans + "p = fold b by l" + spans + "output f;";
+        String spans = " span 8 step 1 : n = count; ";
+        String text = "a = source 0 (k v) lag 1000; b = source 1 (k v) lag 1000; c = source 2 (k v) lag 1000; f = fold a by k" + spans + "g = fold a by k" + spans
+            + "h = fold a by k" + spans + "i = fold a by k" + spans + "p = filter b : 1; q = filter p : 1; r = filter q : 1; j = fold r by k" + spans
+            + "l = fold r by k" + spans + "m = fold r by k" + spans + "n = fold r by k" + spans + "t = top 1 c by k span 1000; output b;";
         int byParts = 0;
-        for (int seed = 0; seed < 30; seed++) {
-            StreamHouse x = Check.house(text);
-            giveRows(x, 0, 0, 64);
-            giveRows(x, 1, 0, 56);
-            x.start(1, 8, seed);
-            Check.settle(x);
-            Check.same("records", held(x), 64 * 8 * 4 + 56 * 8 * 4);
-            giveRows(x, 1, 56, 64);
-            while (x.told(8) == 0 && x.task(1, 7) < 64) {
-                x.turn(1);
-            }
-            if (x.told(8) == 0) {
+        for (int seed = 0; seed < 6; seed++) {
+            for (int more = 0; more <= 1; more++) {
+                House x = Check.house(text);
+                giveRows(x, 0, 0, 64);
+                giveRows(x, 1, 0, 60);
+                giveRows(x, 2, 0, more);
+                x.start(1, 8, seed);
+                Check.settle(x);
+                Check.same("records", held(x), 64 * 32 + 60 * 32 + more);
+                giveRows(x, 1, 60, 61);
+                for (int i = 0; i < 100 && x.task(1, 7) < 61; i++) {
+                    x.turn(1);
+                }
                 x.close(0);
                 x.mark();
+                if (more == 0) {
+                    Check.settle(x);
+                    Check.same("4000 records in parts are not too many", x.told(5), 1);
+                    Check.same("nor broken", x.told(8), 0);
+                    Check.same("those of a KEY", x.records(3, 500) + x.records(11, 560), 16);
+                } else {
+                    House before = justBefore(x);
+                    Check.same("no mark is sealed", before.told(5), 0);
+                    // a turn makes 8 records at most, so that it can't be for those of states
+                    byParts += held(before) <= 3900 ? 1 : 0;
+                    Check.same("a thing was taken", before.turn(1), 1);
+                    isBroken("4001 records in parts", before);
+                }
             }
-            long before = 0;
-            for (int i = 0; i < 5000 && x.told(8) == 0; i++) {
-                before = held(x);
-                x.turn(1);
-            }
-            byParts += before > 0 && before < 3900 ? 1 : 0;
-            Check.same("no such mark is sealed", x.told(5), 0);
-            isBroken("4096 records in parts", x);
         }
-        Check.same("some were broken by their parts", byParts > 0 ? 1 : 0, 1);
+        Check.same("most were broken by their parts", byParts >= 4 ? 1 : 0, 1);
     }
 
-    private static void giveRows(StreamHouse x, int source, int from, int to) {
+    /** Rows of KEYS of their own. */
+    private static void giveRows(House x, int source, int from, int to) {
         for (int i = from; i < to; i++) {
-            x.give(source, i, i, i, 0, 0);
+            x.give(source, 500, 500 + i, 1, 0, 0);
         }
     }
 
-    private static long held(StreamHouse x) {
+    private static long held(House of) {
+        House x = of.twin();
         long held = 0;
         for (int t = 0; t < x.told(1) - 1; t++) {
             held += x.task(t, 4);
@@ -167,12 +196,12 @@ public final class LimitsTest {
         String four = "a = source 0 (k v) lag 1000; b = source 1 (k v) lag 1000; c = source 2 (k v) lag 1000; d = source 3 (k v) lag 1000;"
             + "u = union a b; w = union c d; x = union u w; f = fold x by k span 1000 step 125 : n = count; ";
         // 256 KEYS with 8 spans each end at once: 2048 things for each output
-        StreamHouse x = given(four + "output f; output f;", 4, false);
+        House x = given(four + "output f; output f;", 4, false);
         Check.closeAll(x);
         x.start(1, 8, 3);
         turnsTillBroken(x);
         isBroken("4096 things in boxes", x);
-        StreamHouse y = given(four + "g = filter f : 0; output g;", 4, false);
+        House y = given(four + "g = filter f : 0; output g;", 4, false);
         Check.closeAll(y);
         y.start(1, 8, 3);
         for (int i = 0; i < 40; i++) {
@@ -181,104 +210,251 @@ public final class LimitsTest {
         Check.same("2048 things in boxes are not too many", y.told(8), 0);
     }
 
-    /** A fold's rows and its watermark go to two outputs at once. */
+    /** A fold's rows and its watermark come to its box at once: 3999 or 4000 rows, and one watermark. */
     private static void boxesExactly() {
-        for (int spans = 1999; spans <= 2000; spans++) {
-            StreamHouse x = Check.house("a = source 0 (k v) lag 1000; b = source 1 (k v) lag 1000; c = source 2 (k v) lag 1000;"
-                + "d = source 3 (k v) lag 1000; e = union a b; f = union c d; g = union e f;"
-                + "h = fold g by k span 8 step 1 : n = count; i = filter h : 0; j = filter h : 0; output i; output j;");
-            for (int i = 0; i < 248; i++) {
-                x.give(i % 4, 500, i, 0, 0, 0);
+        for (int rows = 3999; rows <= 4000; rows++) {
+            House x = Check.house("a = source 0 (k v) lag 1000; b = source 1 (k v) lag 1000; c = source 2 (k v) lag 1000; d = source 3 (k v) lag 1000;"
+                + "e = union a b; f = union c d; g = union e f; h = filter g : v; i = map h : k = k + 1000, v = v; j = union g i;"
+                + "l = fold j by k span 8 step 1 : n = count; m = filter l : 0; output m;");
+            int twice = rows == 4000 ? 250 : 249;
+            for (int i = 0; i < twice; i++) {
+                x.give(i % 4, 500, i, 1, 0, 0);
             }
-            // two rows of one KEY that have a span in common, or none
-            x.give(0, 500, 999, 0, 0, 0);
-            x.give(1, spans == 1999 ? 507 : 508, 999, 0, 0, 0);
-            Check.closeAll(x);
+            if (rows == 3999) {
+                // of one KEY: 15 spans
+                x.give(0, 500, 999, 0, 0, 0);
+                x.give(1, 507, 999, 0, 0, 0);
+            }
             x.start(1, 8, 2);
-            for (int i = 0; i < 30; i++) {
-                x.turn(5000);
+            Check.settle(x);
+            Check.same("spans", x.task(10, 4), rows);
+            Check.closeAll(x);
+            if (rows == 3999) {
+                int boxed = 0;
+                for (int i = 0; i < 60 && boxed < 3000; i++) {
+                    x.turn(5);
+                    boxed = (int) x.task(10, 3);
+                }
+                Check.same("they were in the box", boxed > 3900 ? 1 : 0, 1);
+                Check.settle(x);
+                Check.same("4000 things in boxes are not too many", x.told(8), 0);
+                Check.same("all went through", x.channel(11, 5), rows);
+            } else {
+                House before = justBefore(x);
+                Check.same("spans", before.task(10, 4), rows);
+                Check.same("the watermark is taken", before.turn(1), 1);
+                isBroken("4001 things in boxes", before);
             }
-            Check.same(spans + " rows and a watermark, twice", x.told(8), spans == 1999 ? 0 : 1);
         }
     }
 
-    private static void rows() {
-        StreamHouse x = given(TWO + "j = join a b by k l within - 1000 1000; output j;", 2, true);
-        x.start(1, 8, 9);
-        int took = turnsTillBroken(x);
+    private static final String THREE = TWO + "c = source 2 (m x) lag 1000; j = join a b by k l within - 1000 1000; ";
+
+    /** 50 rows of a with 40 rows of b. */
+    private static House twoThousand(String rest) {
+        House x = Check.house(THREE + rest);
+        for (int i = 0; i < 50; i++) {
+            x.give(0, i, 1, i, 0, 0);
+        }
+        for (int i = 0; i < 40; i++) {
+            x.give(1, i, 1, i, 0, 0);
+        }
+        return x;
+    }
+
+    /** "2000 rows pending, prepared and visible" */
+    private static void rowsExactly() {
+        House x = twoThousand("output j; output c;");
+        x.start(2, 8, 9);
+        Check.settle(x);
         Check.same("pending", x.told(11), 2000);
-        Check.same("something was taken", took > 2000 ? 1 : 0, 1);
-        isBroken("2001 rows", x);
-        Check.same("pending rows go", x.told(11), 0);
-        StreamHouse y = Check.house("a = source 0 (k) lag 0; u = union a a; v = union u u; w = union v v; x = union w w; output x;");
-        for (int i = 0; i < 64; i++) {
-            y.give(0, i, i, 0, 0, 0);
-        }
-        y.start(2, 8, 9);
-        Check.finish(y);
-        Check.same("1024 rows", y.visible(0), 1024);
-        Check.same("right", y.onePass() ? 1 : 0, 1);
+        Check.same("2000 rows are not too many", x.told(8), 0);
+        x.give(2, 5, 1, 1, 0, 0);
+        House before = justBefore(x);
+        Check.same("pending", before.told(11), 2000);
+        Check.same("it is taken", before.turn(1), 1);
+        Check.same("it is not pending", before.told(11), 2000);
+        isBroken("2001 rows", before);
+        Check.same("pending rows go", before.told(11), 0);
     }
 
-    private static void sets() {
-        StreamHouse x = given(TWO + "c = source 2 (m x) lag 1000; j = join a b by k l within - 1000 1000;"
-            + "i = join j c by k m within - 1000 1000; output c;", 3, true);
+    private static void visibleRowsCount() {
+        House x = twoThousand("output j; output c;");
+        x.start(2, 8, 9);
+        Check.settle(x);
+        x.mark();
+        Check.settle(x);
+        Check.same("visible", x.visible(0), 2000);
+        Check.same("the last one", x.row(0, 1999, -1), 49);
+        Check.index("no more", () -> x.row(0, 2000, -1));
+        x.give(2, 5, 1, 1, 0, 0);
+        turnsTillBroken(x);
+        isBroken("2001 rows, of which 2000 are visible", x);
+        Check.same("they stay", x.visible(0), 2000);
+        turnsTillBroken(x);
+        isBroken("again, as they stay", x);
+        // 1999 and one more
+        House y = twoThousand("e = filter j : v + w; output e; output c;");
+        y.start(1, 8, 9);
+        Check.settle(y);
+        Check.same("pending", y.told(11), 1999);
+        y.mark();
+        Check.settle(y);
+        y.give(2, 5, 1, 1, 0, 0);
+        Check.settle(y);
+        Check.same("2000 rows", y.visible(0) + y.told(11), 2000);
+        y.mark();
+        Check.settle(y);
+        Check.same("they are visible", y.visible(0) + y.visible(1), 2000);
+        Check.same("they are not too many", y.told(8), 0);
+    }
+
+    /** A mark stays open while the barrier of d is on its way; the row of c comes to its output meanwhile. */
+    private static void preparedRowsCount() {
+        int prepared = 0;
+        for (int seed = 0; seed < 12; seed++) {
+            House x = twoThousand("d = source 3 (n y) lag 0; e = filter d : 1; f = filter e : 1; g = filter f : 1; h = filter g : 1; output j; output c; output h;");
+            x.start(1, 8, seed);
+            Check.settle(x);
+            x.mark();
+            x.give(2, 5, 1, 1, 0, 0);
+            House before = justBefore(x);
+            prepared += before.told(10) == 2000 && before.told(6) == 1 ? 1 : 0;
+            Check.same("rows", before.told(10) + before.told(11) + before.visible(0), 2000);
+        }
+        Check.same("some were broken by prepared rows", prepared > 0 ? 1 : 0, 1);
+    }
+
+    /** "30000 SETS": nine times 63 rows, 51 rows and all their pairs, and 57 rows of another source. */
+    private static void setsExactly() {
+        House x = Check.house(THREE + "output c;");
+        for (int i = 0; i < 63; i++) {
+            x.give(0, 5, 1, i, 0, 0);
+        }
+        for (int i = 0; i < 51; i++) {
+            x.give(1, 5, 1, i, 0, 0);
+        }
         x.start(1, 8, 1);
-        int took = 0;
-        for (int i = 0; i < 500000 && x.told(8) == 0; i++) {
-            int before = x.told(12);
-            took += x.turn(1);
-            if (x.told(8) == 1) {
-                Check.same("sets of the turn are not counted", x.told(12), before);
+        for (int i = 1; i <= 9; i++) {
+            Check.settle(x);
+            Check.same("sets", x.told(12), 3327 * i);
+            if (i < 9) {
+                x.fail();
             }
         }
-        Check.same("not more than 30000", x.told(12) <= 30000 ? 1 : 0, 1);
-        Check.same("things were taken", took > 100 ? 1 : 0, 1);
-        int sets = x.told(12);
-        isBroken("30001 sets", x);
-        Check.same("sets are counted since start()", x.told(12), sets);
-        turnsTillBroken(x);
-        Check.same("it is broken again", x.told(8), 1);
-        x.start(1, 8, 1);
-        Check.same("a run from the beginning is not", x.told(8) + x.told(12), 0);
+        for (int i = 0; i < 57; i++) {
+            x.give(2, 5, 1, i, 0, 0);
+        }
+        Check.settle(x);
+        Check.same("30000 sets", x.told(12), 30000);
+        Check.same("they are not too many", x.told(8), 0);
+        Check.same("pending", x.told(11), 57);
+        x.give(2, 5, 1, 1, 0, 0);
+        House before = justBefore(x);
+        Check.same("its row is read", before.turn(1), 1);
+        Check.same("it is not pending", before.told(11), 57);
+        Check.same("its set is not counted", before.told(12), 30000);
+        isBroken("30001 sets", before);
+        Check.same("sets are counted since start()", before.told(12), 30000);
+        turnsTillBroken(before);
+        isBroken("it is broken again", before);
+        before.start(1, 8, 1);
+        Check.same("a run from the beginning is not", before.told(8) + before.told(12), 0);
+        before.turn(200);
+        Check.same("nor later", before.told(8), 0);
     }
 
-    /** Four sources read 64 rows each, again and again. */
-    private static void setsExactly() {
-        StreamHouse x = given(TWO + "c = source 2 (k v) lag 1000; d = source 3 (k v) lag 1000; output a;", 4, true);
+    /** Of a turn that would make several sets none is counted. */
+    private static void setsOfOneTurn() {
+        House x = given(THREE + "i = join j c by k m within - 1000 1000; output c;", 3, true);
         x.start(1, 8, 1);
-        for (int i = 1; i <= 117; i++) {
-            x.turn(5000);
-            Check.same("sets", x.told(12), 256 * i);
-            x.fail();
+        House before = justBefore(x);
+        int sets = before.told(12);
+        Check.same("nearly 30000", sets > 25000 && sets <= 30000 ? 1 : 0, 1);
+        Check.same("a thing is taken", before.turn(1), 1);
+        Check.same("sets of the turn are not counted", before.told(12), sets);
+        isBroken("more than 30000 sets", before);
+    }
+
+    /** "the turn ends .. (its thing was taken, or its row read, and counts in turn()'s answer); further turns do nothing" */
+    private static void brokenTurnCounts() {
+        House x = twoThousand("output j; output c;");
+        x.give(2, 5, 1, 1, 0, 0);
+        x.start(1, 8, 7);
+        House before = justBefore(x);
+        int turns = before.told(3);
+        int idle = before.told(4);
+        House many = before.twin();
+        Check.same("one turn of many", many.turn(5000), 1);
+        Check.same("it is counted alone", many.told(3), turns + 1);
+        Check.same("no idle one", many.told(4), idle);
+        Check.same("many turns at once, and one by one", many.picture(), behind(before, 1).picture());
+        Check.same("nothing more", many.turn(5000), 0);
+        // a mark that is open stays so till it begins again
+        House open = before.twin();
+        open.mark();
+        turnsTillBroken(open);
+        Check.same("broken", open.told(8), 1);
+        Check.same("the open mark", open.told(6), 1);
+        Check.state("another mark", () -> open.mark());
+        Check.same("fail", open.fail(), 0);
+        Check.same("none is open", open.told(6), 0);
+        Check.same("the next one", open.mark(), 2);
+    }
+
+    private static House behind(House x, int turns) {
+        House y = x.twin();
+        y.turn(turns);
+        return y;
+    }
+
+    /** "till it begins again (by fail(), rescale(), reopen() or start())" */
+    private static void beginsAgain() {
+        House x = twoThousand("output j; output c;");
+        x.give(2, 5, 1, 1, 0, 0);
+        x.start(1, 8, 7);
+        turnsTillBroken(x);
+        House failed = x.twin();
+        failed.fail();
+        House other = x.twin();
+        other.rescale(3);
+        House anew = x.twin();
+        anew.start(2, 2, 2);
+        for (House y : new House[] {failed, other, anew}) {
+            Check.same("broken before", x.told(8), 1);
+            Check.same("not broken", y.told(8), 0);
+            Check.same("pending", y.told(11), 0);
+            Check.same("place", y.task(0, 7), 0);
+            Check.same("a turn is counted again", y.turn(1) >= 0 ? 1 : 0, 1);
+            turnsTillBroken(y);
+            Check.same("broken in the end", y.told(8), 1);
         }
-        x.turn(5000);
-        Check.same("30000 sets", x.told(12), 30000);
-        Check.same("one more is too many", x.told(8), 1);
+        Check.same("began again", failed.told(7), 1);
+        Check.same("began again", other.told(7), 1);
+        Check.same("began anew", anew.told(7), 0);
+        // another job, and clear(), end it, too
+        Check.feed(x, "a = source 0 (k) lag 0; output a;");
+        x.job();
+        Check.same("not broken", x.told(8), 0);
+        x.clear();
+        Check.same("not broken", x.told(8), 0);
     }
 
     /** Many failures, marks and runs use the same room again. */
     private static void keepsGoing() {
-        StreamHouse y = given(TWO + "j = join a b by k l within - 3 3; f = fold j by v gap 2 : n = count; m = match j by k : 1 then 1 within 2;"
+        House y = given(TWO + "j = join a b by k l within - 3 3; f = fold j by v gap 2 : n = count; m = match j by k : 1 then 1 within 2;"
             + "o = unique j by w within 5; t = top 3 j by w span 10; output f;", 2, true);
         Check.closeAll(y);
-        for (int i = 0; i < 40; i++) {
+        for (int i = 0; i < 16; i++) {
             y.start(1 + i % 4, 1 + i % 8, i);
             y.turn(3000);
             y.mark();
             y.turn(3000);
             y.rescale(1 + i % 3);
             y.turn(3000);
-            if (y.told(6) == 0) {
-                y.mark();
-            }
-            for (int k = 0; k < 20; k++) {
-                y.turn(5000);
-            }
-            if (y.told(6) == 0) {
-                y.mark();
-                Check.settle(y);
-            }
+            Check.settle(y);
+            y.mark();
+            Check.settle(y);
             Check.same("right, round " + i, y.onePass() ? 1 : 0, 1);
         }
     }

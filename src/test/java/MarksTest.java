@@ -16,7 +16,7 @@ public final class MarksTest {
     }
 
     private static void wrongCalls() {
-        StreamHouse x = Check.house(PLAIN);
+        House x = Check.house(PLAIN);
         Check.state("mark without a run", () -> x.mark());
         Check.state("fail without a run", () -> x.fail());
         Check.state("rescale without a run", () -> x.rescale(0));
@@ -36,7 +36,7 @@ public final class MarksTest {
 
     /** What a failure takes back, and what a mark keeps. */
     private static void failing() {
-        StreamHouse x = Check.house("a = source 0 (k v) lag 2; f = fold a by k span 5 step 5 : n = count; output a; output f;");
+        House x = Check.house("a = source 0 (k v) lag 2; f = fold a by k span 5 step 5 : n = count; output a; output f;");
         Check.give(x, Check.row(0, 5, 1, 10), Check.row(0, 1, 1, 1), Check.row(0, 6, 1, 20));
         x.start(2, 3, 77);
         Check.settle(x);
@@ -78,7 +78,7 @@ public final class MarksTest {
     /** The source's part, the output's part and the seal are written one behind the other. */
     private static void power() {
         for (int n = 0; n <= 3; n++) {
-            StreamHouse x = Check.house(PLAIN);
+            House x = Check.house(PLAIN);
             x.give(0, 5, 1, 10, 0, 0);
             x.crash(7);
             x.start(1, 2, Check.seedFor(2, "AABBBABAB"));
@@ -107,7 +107,7 @@ public final class MarksTest {
             Check.same("the next mark", x.told(5), 2);
             Check.same("rows", Check.rows(x, 0, 2), "5:1,10<0>");
         }
-        StreamHouse never = Check.house(PLAIN);
+        House never = Check.house(PLAIN);
         never.crash(0);
         never.crash(-1);
         never.start(1, 1, 1);
@@ -116,7 +116,7 @@ public final class MarksTest {
     }
 
     private static void down() {
-        StreamHouse x = Check.house("a = source 0 (k v) lag 2; f = unique a by k within 3; output f;");
+        House x = Check.house("a = source 0 (k v) lag 2; f = unique a by k within 3; output f;");
         x.give(0, 5, 1, 10, 0, 0);
         x.start(2, 2, 3);
         Check.finish(x);
@@ -157,7 +157,7 @@ public final class MarksTest {
         Check.settle(x);
         Check.same("latest", x.told(5), 3);
         Check.same("rows stay", x.visible(0), 1);
-        StreamHouse y = Check.house(PLAIN);
+        House y = Check.house(PLAIN);
         y.start(1, 1, 1);
         y.crash(0);
         y.mark();
@@ -171,7 +171,7 @@ public final class MarksTest {
 
     /** Marks that are given up have numbers as well, and nothing of them is left. */
     private static void givenUp() {
-        StreamHouse f = Check.house("a = source 0 (k v) lag 99; f = fold a by k span 4 step 2 : n = count; output a; output f; output a; output a;");
+        House f = Check.house("a = source 0 (k v) lag 99; f = fold a by k span 4 step 2 : n = count; output a; output f; output a; output a;");
         Check.give(f, Check.row(0, 5, 1, 10), Check.row(0, 6, 1, 10));
         f.start(2, 8, 3);
         Check.settle(f);
@@ -192,7 +192,7 @@ public final class MarksTest {
         for (int o = 0; o < 4; o++) {
             Check.same("rows of output " + o, Check.rows(f, o, 2), o == 1 ? "5:1,1<0> 7:1,2<0,1> 9:1,1<1>" : "5:1,10<0> 6:1,10<1>");
         }
-        StreamHouse x = Check.house(PLAIN);
+        House x = Check.house(PLAIN);
         x.start(1, 1, 1);
         Check.same("a mark", x.mark(), 1);
         Check.same("fail", x.fail(), 0);
@@ -210,7 +210,7 @@ public final class MarksTest {
 
     /** A channel whose barrier was taken is blocked till the others' are. */
     private static void aligning() {
-        StreamHouse x = Check.house("a = source 0 (k) lag 9; b = source 1 (k) lag 9; u = union a b; output u;");
+        House x = Check.house("a = source 0 (k) lag 9; b = source 1 (k) lag 9; u = union a b; output u;");
         for (int i = 0; i < 3; i++) {
             x.give(0, i, i, 0, 0, 0);
             x.give(1, i, 10 + i, 0, 0, 0);
@@ -238,7 +238,7 @@ public final class MarksTest {
     }
 
     private static void recordsOfMarks() {
-        StreamHouse x = Check.house("a = source 0 (k v) lag 0; b = source 1 (l w) lag 100; f = fold a by k span 4 step 2 : n = count;"
+        House x = Check.house("a = source 0 (k v) lag 0; b = source 1 (l w) lag 100; f = fold a by k span 4 step 2 : n = count;"
             + "g = fold a by k gap 5 : n = count; j = join a b by k l within 0 50; o = look a b by v w; m = match a by k : v then v within 9;"
             + "u = unique a by k within 9; output f;");
         x.start(3, 4, 4);
@@ -275,7 +275,7 @@ public final class MarksTest {
 
     /** With another parallel than the mark's what went aside is told of part 0. */
     private static void asideOfParts() {
-        StreamHouse x = Check.house("a = source 0 (k) lag 0; f = filter a : 1 / k; output f;");
+        House x = Check.house("a = source 0 (k) lag 0; f = filter a : 1 / k; output f;");
         for (int i = 0; i < 6; i++) {
             x.give(0, i, i < 3 ? 0 : 1, 0, 0, 0);
         }
@@ -313,7 +313,7 @@ public final class MarksTest {
         aside(x, 3, 0);
     }
 
-    private static void aside(StreamHouse x, long... due) {
+    private static void aside(House x, long... due) {
         for (int p = 0; p < due.length; p++) {
             Check.same("aside of part " + p + " of " + due.length, x.task(1 + p, 6), due[p]);
         }
@@ -321,7 +321,7 @@ public final class MarksTest {
 
     /** The seed's number goes on over a failure. */
     private static void goingOn() {
-        StreamHouse x = Check.house(PLAIN);
+        House x = Check.house(PLAIN);
         for (int i = 0; i < 5; i++) {
             x.give(0, i + 3, i, 0, 0, 0);
         }

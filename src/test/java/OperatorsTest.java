@@ -24,7 +24,7 @@ public final class OperatorsTest {
     /** The rows of output 0, from runs of several kinds, with and without failures and other numbers of tasks. */
     private static void out(String text, int columns, String due, long[]... rows) {
         for (int kind = 0; kind < 24; kind++) {
-            StreamHouse x = Check.house(text);
+            House x = Check.house(text);
             Check.give(x, rows);
             x.start(1 + kind % 4, 1 + kind % 8, kind * 1234567L);
             if (kind >= 8) {
@@ -157,7 +157,7 @@ public final class OperatorsTest {
 
     /** Of equal rows the first one is kept, and looked up later. */
     private static void lookAfterDropping() {
-        StreamHouse x = Check.house("a = source 0 (k v) lag 0; b = source 1 (l w) lag 0; j = look a b by k l; output j;");
+        House x = Check.house("a = source 0 (k v) lag 0; b = source 1 (l w) lag 0; j = look a b by k l; output j;");
         x.start(2, 3, 8);
         Check.give(x, Check.row(0, 20, 2, 0), Check.row(1, 4, 1, 5), Check.row(1, 4, 1, 5), Check.row(1, 3, 1, 9), Check.row(1, 20, 2, 0));
         Check.settle(x);
@@ -168,7 +168,7 @@ public final class OperatorsTest {
 
     /** Rows that can't be joined any more go, whichever came before them. */
     private static void joinAfterDropping() {
-        StreamHouse x = Check.house(AB + "j = join a b by k l within 0 2; i = join b a by l k within - 2 0; output j; output i;");
+        House x = Check.house(AB + "j = join a b by k l within 0 2; i = join b a by l k within - 2 0; output j; output i;");
         x.start(2, 3, 8);
         Check.give(x, Check.row(0, 20, 1, 1), Check.row(0, 12, 1, 2), Check.row(0, 25, 1, 3), Check.row(1, 25, 1, 4));
         Check.settle(x);
@@ -188,7 +188,7 @@ public final class OperatorsTest {
         String[] operators = {"filter a : 1 / v", "map a : x = 1, y = 1 % v", "fold a by k gap 3 : n = count, x = most 1 / v",
             "fold a by k span 2 step 1 : n = count, x = sum 1 / v, y = count", "match a by k : 1 then 1 then 1 / v within 4"};
         for (String operator : operators) {
-            StreamHouse x = Check.house(A + "f = " + operator + "; output f;");
+            House x = Check.house(A + "f = " + operator + "; output f;");
             Check.give(x, Check.row(0, 3, 1, 0), Check.row(0, 4, 1, 0));
             x.start(1, 2, 3);
             Check.finish(x);
@@ -215,7 +215,7 @@ public final class OperatorsTest {
     }
 
     private static void made(String rest, int due) {
-        StreamHouse x = Check.house("a = source 0 (k v) lag 0; " + rest);
+        House x = Check.house("a = source 0 (k v) lag 0; " + rest);
         Check.give(x, Check.row(0, 1, 1, 1), Check.row(0, 2, 1, 2), Check.row(0, 3, 1, 3), Check.row(0, 2, 1, 4));
         x.start(3, 2, 11);
         Check.finish(x);
@@ -233,7 +233,7 @@ public final class OperatorsTest {
         // equal ones: the first one stays
         held("j = look a b by k l; output j;", new int[][] {
             {1, 10, 1}, {1, 10, 2}, {1, 10, 3}, {1, 12, 4}, {0, 13, 3}, {0, 20, 4}, {1, 21, 3}});
-        StreamHouse x = Check.house("a = source 0 (k v) lag 0; m = match a by k : v then v within 2; u = unique a by k within 2;"
+        House x = Check.house("a = source 0 (k v) lag 0; m = match a by k : v then v within 2; u = unique a by k within 2;"
             + "t = top 1 a by k span 4; output a;");
         x.start(1, 8, 5);
         int[][] due = {
@@ -250,7 +250,7 @@ public final class OperatorsTest {
 
     /** Rows of a KEY: source, time, and how many records there are then. */
     private static void held(String rest, int[][] rows) {
-        StreamHouse x = Check.house("a = source 0 (k v) lag 0; b = source 1 (l w) lag 0; " + rest);
+        House x = Check.house("a = source 0 (k v) lag 0; b = source 1 (l w) lag 0; " + rest);
         x.start(1, 8, 5);
         for (int[] r : rows) {
             x.give(r[0], r[1], 1, 0, 0, 0);

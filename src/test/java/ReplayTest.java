@@ -21,7 +21,7 @@ public final class ReplayTest {
     }
 
     private static void replay(Path run) throws IOException {
-        StreamHouse x = new StreamHouse();
+        House x = new House();
         int line = 0;
         for (String text : Files.readAllLines(run)) {
             line++;
@@ -32,7 +32,7 @@ public final class ReplayTest {
         }
     }
 
-    private static String answer(StreamHouse x, String[] words) {
+    private static String answer(House x, String[] words) {
         long[] n = new long[7];
         for (int i = 1; i < words.length; i++) {
             n[i] = Long.parseLong(words[i]);
@@ -44,7 +44,7 @@ public final class ReplayTest {
         }
     }
 
-    private static long call(StreamHouse x, String name, long[] n, int first, int second) {
+    private static long call(House x, String name, long[] n, int first, int second) {
         switch (name) {
             case "feed": return x.feed(n[1], second);
             case "job": return x.job();

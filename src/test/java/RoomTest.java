@@ -18,7 +18,7 @@ public final class RoomTest {
     public static void main(String[] args) {
         for (String job : JOBS) {
             long before = allocated();
-            StreamHouse x = Check.house(job);
+            House x = Check.house(job);
             int calls = 1 + (job.length() + 7) / 8 + 1;
             calls += giveAll(x);
             for (int i = 0; calls + 7 <= 512; i++) {
@@ -30,7 +30,7 @@ public final class RoomTest {
         Check.end();
     }
 
-    private static int giveAll(StreamHouse x) {
+    private static int giveAll(House x) {
         int calls = 0;
         for (int s = 0; s < 3; s++) {
             for (int i = 0; i < 64; i++) {
@@ -46,7 +46,7 @@ public final class RoomTest {
         return calls + 4;
     }
 
-    private static int round(StreamHouse x, int i) {
+    private static int round(House x, int i) {
         if (i % 5 == 0) {
             x.start(1 + i % 4, 1 + i % 8, i);
         }

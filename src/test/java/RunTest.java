@@ -17,7 +17,7 @@ public final class RunTest {
     }
 
     private static void wrongCalls() {
-        StreamHouse x = Check.house(PLAIN);
+        House x = Check.house(PLAIN);
         Check.argument("parallel 0", () -> x.start(0, 1, 1));
         Check.argument("parallel 5", () -> x.start(5, 1, 1));
         Check.argument("room 0", () -> x.start(1, 0, 1));
@@ -49,19 +49,22 @@ public final class RunTest {
         Check.argument("records of an output", () -> x.records(1, 0));
     }
 
-    private static void task(StreamHouse x, int task, long... due) {
+    private static void task(House of, int task, long... due) {
+        House x = of.twin();
         for (int what = 0; what < due.length; what++) {
             Check.same("turn " + x.told(3) + ": task(" + task + ", " + what + ")", x.task(task, what), due[what]);
         }
     }
 
-    private static void channel(StreamHouse x, int channel, long... due) {
+    private static void channel(House of, int channel, long... due) {
+        House x = of.twin();
         for (int what = 0; what < due.length; what++) {
             Check.same("turn " + x.told(3) + ": channel(" + channel + ", " + what + ")", x.channel(channel, what), due[what]);
         }
     }
 
-    private static void told(StreamHouse x, int... due) {
+    private static void told(House of, int... due) {
+        House x = of.twin();
         for (int what = 0; what < due.length; what++) {
             Check.same("turn " + x.told(3) + ": told(" + what + ")", x.told(what), due[what]);
         }
@@ -69,7 +72,7 @@ public final class RunTest {
 
     /** Task 0 is the source, task 1 the output, and their channel holds one thing. */
     private static void turnByTurn() {
-        StreamHouse x = Check.house(PLAIN);
+        House x = Check.house(PLAIN);
         Check.give(x, Check.row(0, 5, 1, 10), Check.row(0, 3, 2, 20), Check.row(0, 2, 3, 30));
         x.start(1, 1, Check.seedFor(2, "AABBABAAAABABAB"));
         task(x, 0, 0, 0, -1, 0, 0, 0, 0, 0, 0);
@@ -131,7 +134,7 @@ public final class RunTest {
 
     /** Who has how many tasks, and which channels there are between them. */
     private static void layout() {
-        StreamHouse x = Check.house("a = source 0 (k) lag 0; b = source 1 (l) lag 0; f = filter a : 1; m = map f : k = k;"
+        House x = Check.house("a = source 0 (k) lag 0; b = source 1 (l) lag 0; f = filter a : 1; m = map f : k = k;"
             + "j = join m b by k l within 0 0; t = top 1 j by k span 1; u = union f f; output t;");
         Check.same("tasks", x.start(2, 3, 0), 12);
         // a 0, b 1, f 2 3, m 4 5, j 6 7, t 8, u 9 10, output 11
@@ -151,7 +154,7 @@ public final class RunTest {
 
     /** From one task to several ones rows go round; watermarks go to all. */
     private static void dealing() {
-        StreamHouse x = Check.house("a = source 0 (k) lag 0; f = filter a : 1 / k; output f;");
+        House x = Check.house("a = source 0 (k) lag 0; f = filter a : 1 / k; output f;");
         for (int i = 0; i < 7; i++) {
             x.give(0, i, i % 3 == 0 ? 0 : 1, 0, 0, 0);
         }
@@ -173,7 +176,7 @@ public final class RunTest {
         long[] keys = {0, 1, 2, 3, -1, 1L << 63, 12345678901L, 0x5555555555555555L};
         for (long key : keys) {
             for (int parallel = 1; parallel <= 4; parallel++) {
-                StreamHouse x = Check.house("a = source 0 (v k) lag 0; u = unique a by k within 1; output u;");
+                House x = Check.house("a = source 0 (v k) lag 0; u = unique a by k within 1; output u;");
                 x.give(0, 1, 5, key, 0, 0);
                 x.start(parallel, 2, 3);
                 Check.settle(x);
@@ -187,7 +190,7 @@ public final class RunTest {
 
     /** An output with two inputs' tasks takes from one behind the other. */
     private static void roundAndRound() {
-        StreamHouse x = Check.house("a = source 0 (k) lag 1000; b = source 1 (k) lag 1000; u = union a b; output u;");
+        House x = Check.house("a = source 0 (k) lag 1000; b = source 1 (k) lag 1000; u = union a b; output u;");
         for (int i = 0; i < 4; i++) {
             x.give(0, i, i, 0, 0, 0);
             x.give(1, i, 10 + i, 0, 0, 0);
@@ -207,7 +210,7 @@ public final class RunTest {
     }
 
     private static void startingAnew() {
-        StreamHouse x = Check.house(PLAIN);
+        House x = Check.house(PLAIN);
         Check.give(x, Check.row(0, 5, 1, 10));
         x.start(1, 1, 7);
         Check.finish(x);
@@ -221,13 +224,17 @@ public final class RunTest {
         Check.finish(x);
         Check.same("first mark", x.told(5), 1);
         Check.same("rows", Check.rows(x, 0, 2), "5:1,10<0>");
-        StreamHouse y = Check.house("a = source 0 (k v) lag 9; b = source 1 (l w) lag 9; f = fold a by k gap 5 : n = count;"
-            + "j = join a b by k l within 0 9; output j;");
         for (int seed = 0; seed < 20; seed++) {
-            for (int i = 0; i < 3; i++) {
-                y.give(0, i, 1, seed, 0, 0);
-                y.give(1, i, 1, seed, 0, 0);
+            House y = Check.house("a = source 0 (k v) lag 9; b = source 1 (l w) lag 9; f = fold a by k gap 5 : n = count;"
+                + "j = join a b by k l within 0 9; output j;");
+            for (int i = 0; i < 9; i++) {
+                y.give(0, i, 1, i, 0, 0);
+                y.give(1, i, 1, i, 0, 0);
             }
+            y.start(1 + seed % 3, 1, seed);
+            y.turn(50 + 10 * seed);
+            y.mark();
+            y.turn(5 + 10 * seed);
             y.start(1 + seed % 4, 1, seed);
             for (int t = 0; t < y.told(1); t++) {
                 task(y, t, y.task(t, 0), y.task(t, 1), -1, 0, 0, 0, 0, y.task(t, 0) < 2 ? 0 : -1, 0);
@@ -236,15 +243,12 @@ public final class RunTest {
                 channel(y, c, y.channel(c, 0), y.channel(c, 1), 0, -1, 0, 0);
             }
             told(y, 5, y.told(1), y.told(2), 0, 0, 0, 0, 0, 0, 0, 0, 0, 0, 1, 0);
-            y.turn(50 + seed);
-            y.mark();
-            y.turn(5);
         }
     }
 
     /** A task's watermark is the least of its channels; a fold's rows come before its own goes on. */
     private static void watermarks() {
-        StreamHouse x = Check.house("a = source 0 (k) lag 0; b = source 1 (k) lag 5; u = union a b;"
+        House x = Check.house("a = source 0 (k) lag 0; b = source 1 (k) lag 5; u = union a b;"
             + "f = fold u by k span 5 step 5 : n = count; output f;");
         x.give(0, 20, 1, 0, 0, 0);
         x.start(1, 8, 9);
@@ -273,7 +277,7 @@ public final class RunTest {
     }
 
     private static void onePass() {
-        StreamHouse x = Check.house("a = source 0 (k) lag 0; output a; output a;");
+        House x = Check.house("a = source 0 (k) lag 0; output a; output a;");
         Check.same("nothing is given, nothing is visible", x.onePass() ? 1 : 0, 1);
         x.give(0, 5, 1, 0, 0, 0);
         Check.same("nothing is visible", x.onePass() ? 1 : 0, 0);
@@ -286,7 +290,7 @@ public final class RunTest {
         Check.same("a late row changes nothing", x.onePass() ? 1 : 0, 1);
         x.give(0, 5, 1, 0, 0, 0);
         Check.same("an equal row counts", x.onePass() ? 1 : 0, 0);
-        StreamHouse big = Check.house("a = source 0 (k) lag 0; b = source 1 (l) lag 0; j = join a b by k l within 0 0;"
+        House big = Check.house("a = source 0 (k) lag 0; b = source 1 (l) lag 0; j = join a b by k l within 0 0;"
             + "f = filter j : 0; output f;");
         for (int i = 0; i < 64; i++) {
             big.give(0, 5, 1, 0, 0, 0);
@@ -304,7 +308,7 @@ public final class RunTest {
             for (int i = 0; i < folds; i++) {
                 text.append((char) ('f' + i)).append(" = fold a by k span 8 step 1 : n = count; ");
             }
-            StreamHouse x8 = Check.house(text + "z = filter f : 0; output z;");
+            House x8 = Check.house(text + "z = filter f : 0; output z;");
             for (int i = 0; i < 64; i++) {
                 x8.give(0, 5, i, 0, 0, 0);
             }

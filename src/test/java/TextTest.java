@@ -14,14 +14,14 @@ public final class TextTest {
     }
 
     private static void feeding() {
-        StreamHouse x = new StreamHouse();
+        House x = new House();
         Check.argument("feed of 0 bytes", () -> x.feed(1, 0));
         Check.argument("feed of 9 bytes", () -> x.feed(1, 9));
         Check.argument("feed of -1 bytes", () -> x.feed(1, -1));
         Check.same("feed", x.feed(0x1122334455667788L, 8), 8);
         Check.same("feed", x.feed(-1, 1), 9);
         Check.same("tape", x.told(14), 9);
-        StreamHouse full = new StreamHouse();
+        House full = new House();
         for (int i = 0; i < 187; i++) {
             full.feed(0x2020202020202020L, 8);
         }
@@ -33,117 +33,99 @@ public final class TextTest {
         Check.same("job of blanks", full.job(), -1501);
         Check.same("fault of blanks", full.fault(), 3);
         Check.same("tape is used up", full.told(14), 0);
-        StreamHouse highest = new StreamHouse();
+        House highest = new House();
         highest.feed(0x7A7A7A7A7A613D73L, 3);
         Check.same("a=s, the highest byte first", highest.job(), -3);
         Check.same("a=s, s is no operator", highest.fault(), 4);
     }
 
-    /** A text with a ^ before the token at which its fault is. */
-    private static void fault(int due, String marked) {
-        int place = marked.indexOf('^');
-        StreamHouse x = new StreamHouse();
-        Check.same("fault before a text", x.fault(), 0);
-        Check.feed(x, marked.replace("^", ""));
-        Check.same("job: " + marked, x.job(), -1 - place);
-        Check.same("fault: " + marked, x.fault(), due);
-        Check.same("no job", x.told(0), 0);
-    }
-
-    private static void good(String text, int operators) {
-        StreamHouse x = new StreamHouse();
-        Check.feed(x, text);
-        Check.same("job: " + text, x.job(), operators);
-        Check.same("fault: " + text, x.fault(), 0);
-    }
-
     private static void faults() {
-        fault(1, "^A = source 0 (k) lag 0; output a;");
-        fault(1, HEAD + "b = filter a : k ^. 1; output b;");
-        fault(1, HEAD + "output a; ^\u00e9");
-        fault(1, HEAD + "output a; ^\u007f");
-        fault(2, "a = source ^0000000000000000000 (k) lag 0;");
-        fault(2, "a ^1234567890123456789");
-        good(HEAD + "b = filter a : 123456789012345678; output b;", 3);
-        fault(3, "^");
-        fault(3, HEAD + "^");
-        fault(3, HEAD + "output a^");
-        fault(3, HEAD + "b = filter a : (k^");
-        fault(4, "^source = source 0 (k) lag 0;");
-        fault(4, "^7 = source 0 (k) lag 0;");
-        fault(4, "^sevenab = source 0 (k) lag 0;");
-        fault(4, "a ^: source 0 (k) lag 0;");
-        fault(4, "a = ^output b;");
-        fault(4, "a = ^count 0 (k) lag 0;");
-        fault(4, "a = source 0 (^) lag 0;");
-        fault(4, "a = source 0 (k^, v) lag 0;");
-        fault(4, HEAD + "b = filter a : k < 1 ^= 2; output b;");
-        fault(4, HEAD + "b = filter a : k ^v; output b;");
-        fault(4, HEAD + "b = filter a : ^; output b;");
-        fault(4, HEAD + "b = fold a by k ^within 3 : n = count; output b;");
-        fault(4, HEAD + "b = fold a by k gap 3 : n = ^time; output b;");
-        fault(4, HEAD + "b = match a by k : v ^within 3; output b;");
-        fault(4, HEAD + "b = map a : n = k, ^; output b;");
-        fault(5, "a = filter ^a : 1; output a;");
-        fault(5, HEAD + "b = filter a : ^w; output b;");
-        fault(5, HEAD + "b = unique a by ^w within 1; output b;");
-        fault(5, HEAD + "b = source 1 (l) lag 0; c = join a b by k ^k within 0 0; output c;");
-        fault(5, HEAD + "output ^b;");
-        fault(6, HEAD + "^a = filter a : 1; output a;");
-        fault(6, "a = source 0 (k v ^k) lag 0; output a;");
-        fault(6, HEAD + "b = map a : n = 1, ^n = 2; output b;");
-        fault(6, HEAD + "b = fold a by k gap 3 : ^k = count; output b;");
-        fault(6, HEAD + "b = join a ^a by k k within 0 0; output b;");
-        fault(6, HEAD + "b = look a ^a by k k; output b;");
-        fault(6, HEAD + "b = source 1 (k) lag 0; c = look a ^b by k k; output c;");
-        fault(6, HEAD + "b = source 1 (w v) lag 0; c = join a ^b by k w within 0 0; output c;");
-        fault(6, HEAD + "b = map a : rank = k; c = top 1 ^b by rank span 5; output c;");
-        fault(6, HEAD + "b = map a : from = k; c = match b by ^from : 1 then 1 within 3; output c;");
-        fault(6, HEAD + "b = map a : to = k; c = match b by ^to : 1 then 1 within 3; output c;");
-        fault(7, "a = source ^4 (k) lag 0;");
-        fault(7, HEAD + "b = source ^0 (k) lag 0;");
-        fault(7, "a = source 0 (k) lag ^1001; output a;");
-        fault(7, HEAD + "b = fold a by k span ^0 step 1 : n = count; output b;");
-        fault(7, HEAD + "b = fold a by k span ^1001 step 1000 : n = count; output b;");
-        good(HEAD + "b = fold a by k span 1000 step 1000 : n = count; output b;", 3);
-        fault(7, HEAD + "b = fold a by k span 5 step ^6 : n = count; output b;");
-        fault(7, HEAD + "b = fold a by k span 17 step ^2 : n = count; output b;");
-        good(HEAD + "b = fold a by k span 16 step 2 : n = count; output b;", 3);
-        fault(7, HEAD + "b = fold a by k gap ^1001 : n = count; output b;");
-        fault(7, HEAD + "b = source 1 (l) lag 0; c = join a b by k l within 3 ^2; output c;");
-        fault(7, HEAD + "b = source 1 (l) lag 0; c = join a b by k l within - 3 - ^4; output c;");
-        fault(7, HEAD + "b = source 1 (l) lag 0; c = join a b by k l within - ^1001 4; output c;");
-        good(HEAD + "b = source 1 (l) lag 0; c = join a b by k l within - 4 - 4; output c;", 4);
-        fault(7, HEAD + "b = match a by k : 1 then 1 within ^1001; output b;");
-        fault(7, HEAD + "b = unique a by k within ^0; output b;");
-        fault(7, HEAD + "b = top ^0 a by k span 5; output b;");
-        fault(7, HEAD + "b = top ^10 a by k span 5; output b;");
-        fault(8, HEAD + "b = source 1 (v k) lag 0; c = union a ^b; output c;");
-        fault(8, HEAD + "b = source 1 (k) lag 0; c = union a ^b; output c;");
-        fault(8, HEAD + "b = source 1 (w v) lag 0; c = union a ^b; output c;");
-        fault(8, HEAD + "b = source 1 (k w) lag 0; c = union a ^b; output c;");
-        fault(8, "a = source 0 (k v w x ^y) lag 0; output a;");
-        fault(8, HEAD + "b = fold a by k gap 3 : n = count, m = count, o = count, p = count, ^q = count; output b;");
-        fault(8, HEAD + "b = match a by k : 1 then 1 then 1 then 1 ^then 1 within 3; output b;");
-        fault(8, HEAD + "output a; output a; output a; output a; ^output a;");
+        Check.fault(1, "^A = source 0 (k) lag 0; output a;");
+        Check.fault(1, HEAD + "b = filter a : k ^. 1; output b;");
+        Check.fault(1, HEAD + "output a; ^\u00e9");
+        Check.fault(1, HEAD + "output a; ^\u007f");
+        Check.fault(2, "a = source ^0000000000000000000 (k) lag 0;");
+        Check.fault(2, "a ^1234567890123456789");
+        Check.good(HEAD + "b = filter a : 123456789012345678; output b;", 3);
+        Check.fault(3, "^");
+        Check.fault(3, HEAD + "^");
+        Check.fault(3, HEAD + "output a^");
+        Check.fault(3, HEAD + "b = filter a : (k^");
+        Check.fault(4, "^source = source 0 (k) lag 0;");
+        Check.fault(4, "^7 = source 0 (k) lag 0;");
+        Check.fault(4, "^sevenab = source 0 (k) lag 0;");
+        Check.fault(4, "a ^: source 0 (k) lag 0;");
+        Check.fault(4, "a = ^output b;");
+        Check.fault(4, "a = ^count 0 (k) lag 0;");
+        Check.fault(4, "a = source 0 (^) lag 0;");
+        Check.fault(4, "a = source 0 (k^, v) lag 0;");
+        Check.fault(4, HEAD + "b = filter a : k < 1 ^= 2; output b;");
+        Check.fault(4, HEAD + "b = filter a : k ^v; output b;");
+        Check.fault(4, HEAD + "b = filter a : ^; output b;");
+        Check.fault(4, HEAD + "b = fold a by k ^within 3 : n = count; output b;");
+        Check.fault(4, HEAD + "b = fold a by k gap 3 : n = ^time; output b;");
+        Check.fault(4, HEAD + "b = match a by k : v ^within 3; output b;");
+        Check.fault(4, HEAD + "b = map a : n = k, ^; output b;");
+        Check.fault(5, "a = filter ^a : 1; output a;");
+        Check.fault(5, HEAD + "b = filter a : ^w; output b;");
+        Check.fault(5, HEAD + "b = unique a by ^w within 1; output b;");
+        Check.fault(5, HEAD + "b = source 1 (l) lag 0; c = join a b by k ^k within 0 0; output c;");
+        Check.fault(5, HEAD + "output ^b;");
+        Check.fault(6, HEAD + "^a = filter a : 1; output a;");
+        Check.fault(6, "a = source 0 (k v ^k) lag 0; output a;");
+        Check.fault(6, HEAD + "b = map a : n = 1, ^n = 2; output b;");
+        Check.fault(6, HEAD + "b = fold a by k gap 3 : ^k = count; output b;");
+        Check.fault(6, HEAD + "b = join a ^a by k k within 0 0; output b;");
+        Check.fault(6, HEAD + "b = look a ^a by k k; output b;");
+        Check.fault(6, HEAD + "b = source 1 (k) lag 0; c = look a ^b by k k; output c;");
+        Check.fault(6, HEAD + "b = source 1 (w v) lag 0; c = join a ^b by k w within 0 0; output c;");
+        Check.fault(6, HEAD + "b = map a : rank = k; c = top 1 ^b by rank span 5; output c;");
+        Check.fault(6, HEAD + "b = map a : from = k; c = match b by ^from : 1 then 1 within 3; output c;");
+        Check.fault(6, HEAD + "b = map a : to = k; c = match b by ^to : 1 then 1 within 3; output c;");
+        Check.fault(7, "a = source ^4 (k) lag 0;");
+        Check.fault(7, HEAD + "b = source ^0 (k) lag 0;");
+        Check.fault(7, "a = source 0 (k) lag ^1001; output a;");
+        Check.fault(7, HEAD + "b = fold a by k span ^0 step 1 : n = count; output b;");
+        Check.fault(7, HEAD + "b = fold a by k span ^1001 step 1000 : n = count; output b;");
+        Check.good(HEAD + "b = fold a by k span 1000 step 1000 : n = count; output b;", 3);
+        Check.fault(7, HEAD + "b = fold a by k span 5 step ^6 : n = count; output b;");
+        Check.fault(7, HEAD + "b = fold a by k span 17 step ^2 : n = count; output b;");
+        Check.good(HEAD + "b = fold a by k span 16 step 2 : n = count; output b;", 3);
+        Check.fault(7, HEAD + "b = fold a by k gap ^1001 : n = count; output b;");
+        Check.fault(7, HEAD + "b = source 1 (l) lag 0; c = join a b by k l within 3 ^2; output c;");
+        Check.fault(7, HEAD + "b = source 1 (l) lag 0; c = join a b by k l within - 3 - ^4; output c;");
+        Check.fault(7, HEAD + "b = source 1 (l) lag 0; c = join a b by k l within - ^1001 4; output c;");
+        Check.good(HEAD + "b = source 1 (l) lag 0; c = join a b by k l within - 4 - 4; output c;", 4);
+        Check.fault(7, HEAD + "b = match a by k : 1 then 1 within ^1001; output b;");
+        Check.fault(7, HEAD + "b = unique a by k within ^0; output b;");
+        Check.fault(7, HEAD + "b = top ^0 a by k span 5; output b;");
+        Check.fault(7, HEAD + "b = top ^10 a by k span 5; output b;");
+        Check.fault(8, HEAD + "b = source 1 (v k) lag 0; c = union a ^b; output c;");
+        Check.fault(8, HEAD + "b = source 1 (k) lag 0; c = union a ^b; output c;");
+        Check.fault(8, HEAD + "b = source 1 (w v) lag 0; c = union a ^b; output c;");
+        Check.fault(8, HEAD + "b = source 1 (k w) lag 0; c = union a ^b; output c;");
+        Check.fault(8, "a = source 0 (k v w x ^y) lag 0; output a;");
+        Check.fault(8, HEAD + "b = fold a by k gap 3 : n = count, m = count, o = count, p = count, ^q = count; output b;");
+        Check.fault(8, HEAD + "b = match a by k : 1 then 1 then 1 then 1 ^then 1 within 3; output b;");
+        Check.fault(8, HEAD + "output a; output a; output a; output a; ^output a;");
         String eight = "b = map a : c = 1, d = 1, e = 1, f = 1, g = 1, h = 1, i = 1, j = 1";
-        good(HEAD + eight + "; output b;", 3);
-        fault(8, HEAD + eight + ", ^l = 1; output b;");
-        fault(6, HEAD + eight + ", ^j = 1; output b;");
-        fault(8, HEAD + eight + "; z = look a ^b by k c; output z;");
-        fault(8, HEAD + eight + "; z = top 1 ^b by c span 5; output z;");
+        Check.good(HEAD + eight + "; output b;", 3);
+        Check.fault(8, HEAD + eight + ", ^l = 1; output b;");
+        Check.fault(6, HEAD + eight + ", ^j = 1; output b;");
+        Check.fault(8, HEAD + eight + "; z = look a ^b by k c; output z;");
+        Check.fault(8, HEAD + eight + "; z = top 1 ^b by c span 5; output z;");
     }
 
     private static void deepness() {
-        good(HEAD + "b = filter a : ((((((((((k)))))))))) + ((((((((((k)))))))))); output b;", 3);
-        fault(9, HEAD + "b = filter a : ((((((((((^(k))))))))))); output b;");
-        good(HEAD + "b = filter a : -!-!-!-!-!k - -!-!-!-!-!k; output b;", 3);
-        fault(9, HEAD + "b = filter a : -!-!-!-!-!^(k); output b;");
-        fault(9, HEAD + "b = filter a : -!-!-!-!-!^-k; output b;");
-        fault(9, HEAD + "b = filter a : -!-!-!-!-!^!k; output b;");
-        fault(9, HEAD + "b = filter a : " + "1 ? ".repeat(10) + "1 ^? 1 : 1; output b;");
-        good(HEAD + "b = filter a : " + "1 ? 2 : ".repeat(10) + "1; output b;", 3);
-        fault(9, HEAD + "b = filter a : " + "1 ? 2 : ".repeat(10) + "1 ^? 2 : 3; output b;");
+        Check.good(HEAD + "b = filter a : ((((((((((k)))))))))) + ((((((((((k)))))))))); output b;", 3);
+        Check.fault(9, HEAD + "b = filter a : ((((((((((^(k))))))))))); output b;");
+        Check.good(HEAD + "b = filter a : -!-!-!-!-!k - -!-!-!-!-!k; output b;", 3);
+        Check.fault(9, HEAD + "b = filter a : -!-!-!-!-!^(k); output b;");
+        Check.fault(9, HEAD + "b = filter a : -!-!-!-!-!^-k; output b;");
+        Check.fault(9, HEAD + "b = filter a : -!-!-!-!-!^!k; output b;");
+        Check.fault(9, HEAD + "b = filter a : " + "1 ? ".repeat(10) + "1 ^? 1 : 1; output b;");
+        Check.good(HEAD + "b = filter a : " + "1 ? 2 : ".repeat(10) + "1; output b;", 3);
+        Check.fault(9, HEAD + "b = filter a : " + "1 ? 2 : ".repeat(10) + "1 ^? 2 : 3; output b;");
     }
 
     private static void limits() {
@@ -151,21 +133,21 @@ public final class TextTest {
         for (char c = 'b'; c <= 'o'; c++) {
             many.append(c).append(" = filter a : 1; ");
         }
-        good(many + "output a;", 16);
-        fault(9, many + "output a; ^output a;");
-        fault(9, many + "p = filter a : 1; ^q = filter a : 1;");
-        fault(6, many + "p = filter a : 1; ^p = filter a : 1;");
-        fault(4, many + "p = filter a : 1; ^5");
-        fault(3, many + "p = filter a : 1; ^");
+        Check.good(many + "output a;", 16);
+        Check.fault(9, many + "output a; ^output a;");
+        Check.fault(9, many + "p = filter a : 1; ^q = filter a : 1;");
+        Check.fault(6, many + "p = filter a : 1; ^p = filter a : 1;");
+        Check.fault(4, many + "p = filter a : 1; ^5");
+        Check.fault(3, many + "p = filter a : 1; ^");
         StringBuilder outputs = new StringBuilder(HEAD);
         for (char c = 'b'; c <= 'l'; c++) {
             outputs.append(c).append(" = filter a : 1; ");
         }
-        fault(8, outputs + "output a; output a; output a; output a; ^output a;");
+        Check.fault(8, outputs + "output a; output a; output a; output a; ^output a;");
     }
 
     private static void faultKeepsJob() {
-        StreamHouse x = Check.house(HEAD + "output a;");
+        House x = Check.house(HEAD + "output a;");
         x.give(0, 5, 1, 2, 0, 0);
         x.start(1, 1, 1);
         Check.feed(x, HEAD);
@@ -188,7 +170,7 @@ public final class TextTest {
     }
 
     private static void operators() {
-        StreamHouse x = Check.house("ab = source 3 (key num) lag 9; b = source 0 (l) lag 0; f = filter ab : 1;"
+        House x = Check.house("ab = source 3 (key num) lag 9; b = source 0 (l) lag 0; f = filter ab : 1;"
             + "m = map b : x = l; u = union f ab; s = fold u by num span 2 step 1 : n = count, abcdef = sum num;"
             + "g = fold u by key gap 1 : n = count; j = join ab b by key l within 0 0; o = look j m by l x;"
             + "t = match o by x : 1 then 1 within 0; q = unique t by from within 1; p = top 9 q by to span 1; output p;");
@@ -215,7 +197,7 @@ public final class TextTest {
         Check.index("operator -1", () -> x.operator(-1, 99));
         Check.argument("what 12", () -> x.operator(0, 12));
         Check.argument("what -1", () -> x.operator(0, -1));
-        Check.index("operator without a job", () -> new StreamHouse().operator(0, 0));
+        Check.index("operator without a job", () -> new House().operator(0, 0));
     }
 
     private static long name(String word) {
@@ -228,7 +210,7 @@ public final class TextTest {
 
     /** A VALUE for the row k = 7, v = -3 at time 20, which goes aside if it is bad. */
     private static void value(String text, long due, boolean bad) {
-        StreamHouse x = Check.house(HEAD + "b = map a : x = " + text + "; output b;");
+        House x = Check.house(HEAD + "b = map a : x = " + text + "; output b;");
         x.give(0, 20, 7, -3, 0, 0);
         x.start(1, 8, 1);
         Check.finish(x);
