@@ -14,6 +14,7 @@ public final class EdgesTest {
         joinKeeps();
         joinOrder();
         lookTimes();
+        lookOfOtherWidths();
         lookKeeps();
         matchWithin();
         matchKeeps();
@@ -206,6 +207,30 @@ public final class EdgesTest {
         // those that wait go in order, of equal ones those that came first
         new Probe(look, "m = map o : z = 1; output m;").second(1, 1, 1).first(50, 1, 9).first(50, 1, -9).first(50, 1, 9).first(50, 1, 3)
             .ends(1, "50:1<1,64> 50:1<3,64> 50:1<0,64> 50:1<2,64>");
+    }
+
+    /** Rows that wait are in order by all columns of their own input, be it the wider or the narrower one. */
+    private static void lookOfOtherWidths() {
+        String wider = "a = source 0 (k l m) lag 99; b = source 1 (x) lag 99; o = look a b by k x; p = map o : z = 1; output p;";
+        String narrower = "a = source 0 (x) lag 99; b = source 1 (k l m) lag 99; o = look a b by x k; p = map o : z = m; output p;";
+        for (int again = 0; again <= 1; again++) {
+            House x = Check.house(wider);
+            Check.give(x, Check.row(1, 1, 1), Check.row(0, 5, 1, 1, 9), Check.row(0, 5, 1, 1, 7), Check.row(0, 5, 1, -1, 8), Check.row(0, 5, 1, 1, 8));
+            House y = Check.house(narrower);
+            Check.give(y, Check.row(0, 9, 1), Check.row(1, 5, 1, 1, 9), Check.row(1, 5, 1, 2, -7), Check.row(1, 5, 1, 2, -8), Check.row(1, 5, 1, 1, 10));
+            for (House h : new House[] {x, y}) {
+                h.start(1, 8, 2);
+                Check.settle(h);
+                if (again == 1) {
+                    h.mark();
+                    Check.settle(h);
+                    h.rescale(1);
+                }
+                Check.finish(h);
+            }
+            Check.same("rows of the wider one first", Check.rows(x, 0, 1), "5:1<2,64> 5:1<1,64> 5:1<3,64> 5:1<0,64>");
+            Check.same("the greatest of the wider one", Check.rows(y, 0, 1), "9:-7<0,65>");
+        }
     }
 
     /** "of the second input's rows of a KEY with times not above W all but the greatest go" */

@@ -13,6 +13,7 @@ public final class PassTest {
         anyOutput();
         lateRows();
         whateverTheRun();
+        oneBehindTheOther();
         fourThousandRows();
         Check.end();
     }
@@ -260,10 +261,30 @@ public final class PassTest {
             y.rescale(1 + (kind + 1) % 4);
             y.turn(200);
             Check.finish(y);
-            if (y.told(6) == 0) {
-                right("run of kind " + kind, y, true);
-            }
             Check.same("sealed", y.told(6), 0);
+            right("run of kind " + kind, y, true);
+        }
+    }
+
+    /** What an operator keeps at the end is none of the next one's. */
+    private static void oneBehindTheOther() {
+        String[] operators = {"look a b by k l", "join a b by k l within - 9 9", "match a by k : v then v within 9", "unique a by k within 2", "top 2 a by v span 3",
+            "fold a by k gap 2 : n = count", "fold a by k span 4 step 2 : n = count"};
+        for (String first : operators) {
+            for (String second : operators) {
+                House x = Check.house("a = source 0 (k v) lag 9; b = source 1 (l w) lag 9; o = look a b by k l; p = " + first + "; q = look a b by k l; r = " + second
+                    + "; output o; output p; output q; output r;");
+                for (int i = 0; i < 6; i++) {
+                    x.give(0, 5 + i, i % 2, i % 3, 0, 0);
+                    x.give(1, 4 + i, i % 2, i % 3, 0, 0);
+                }
+                x.start(2, 8, 3);
+                Check.finish(x);
+                right(first + " and " + second, x, true);
+                right("and again", x, true);
+                x.onePass();
+                Check.same("twice of the same object", x.onePass() ? 1 : 0, 1);
+            }
         }
     }
 

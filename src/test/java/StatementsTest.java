@@ -21,6 +21,7 @@ public final class StatementsTest {
         whatCannotStand();
         firstOfSeveral();
         onlyTheFirstFault();
+        narrowerJobs();
         Check.end();
     }
 
@@ -393,5 +394,27 @@ public final class StatementsTest {
         Check.fault(4, A + "b = filter a : k < v ^< $");
         Check.fault(1, A + "output a; ^$");
         Check.fault(2, A + "output a ^1234567890123456789 $");
+    }
+
+    /** "the NAME of column what - 4 (.. 0 for none)", also when a text before had more columns there. */
+    private static void narrowerJobs() {
+        String wide = "p = source 0 (k l m n) lag 0; q = map p : a = 1, b = 1, c = 1, d = 1, e = 1, f = 1, g = 1, h = 1; r = join p p by";
+        String whole = "p = source 0 (k l m n) lag 0; q = map p : a = 1, b = 1, c = 1, d = 1, e = 1, f = 1, g = 1, h = 1; output q;";
+        House x = new House();
+        for (String text : new String[] {whole, whole, wide, wide}) {
+            Check.feed(x, text);
+            x.job();
+        }
+        for (int i = 0; i < 2; i++) {
+            Check.feed(x, "p = source 0 (z) lag 0; q = filter p : 1; output q;");
+            Check.same("a narrower job", x.job(), 3);
+            for (int o = 0; o < 3; o++) {
+                Check.same("columns", x.operator(o, 3), 1);
+                Check.same("its NAME", x.operator(o, 4), 'z');
+                for (int what = 5; what <= 11; what++) {
+                    Check.same("operator(" + o + ", " + what + ")", x.operator(o, what), 0);
+                }
+            }
+        }
     }
 }
