@@ -5,10 +5,14 @@ public final class LimitsTest {
     public static void main(String[] args) {
         records();
         exactly();
+        eachKindOfRecord();
+        recordsBehindThem();
+        markByMark();
         passingThrough();
         partsOfAMark();
         boxes();
         boxesExactly();
+        partOfABrokenTurn();
         rowsExactly();
         visibleRowsCount();
         preparedRowsCount();
@@ -108,6 +112,88 @@ public final class LimitsTest {
         x.give(3, 500, 7, 1, 0, 0);
         turnsTillBroken(x);
         isBroken("4001 records", x);
+    }
+
+    private static final String PAIRS = "a = source 0 (k v) lag 1000; b = source 1 (l w) lag 1000; c = source 2 (z) lag 1000; j = join a b by k l within 0 100;"
+        + "e = filter j : v * 63 + w < #; d = map e : p = v * 63 + w, q = 1; o = ";
+
+    /** "each KEY and span, each session, each row that waits or is kept": 126 rows that the join keeps, and one for each of its pairs. */
+    private static void eachKindOfRecord() {
+        String[] operators = {"fold d by p span 1 step 1 : n = count", "fold d by p gap 9 : n = count", "join d c by p z within 0 0", "join c d by z p within 0 0",
+            "look d c by p z", "look c d by z p", "match d by p : 1 then 1 within 9", "unique d by p within 9", "top 1 d by p span 7"};
+        for (String operator : operators) {
+            for (int more = 0; more <= 1; more++) {
+                House x = pairs(operator, 3874 + more);
+                giveBatch(x, 1, 500, 0, 63);
+                Check.settle(x);
+                Check.same(operator + ": " + (4000 + more) + " records", x.told(8), more);
+                if (more == 0) {
+                    Check.same(operator + ": records", held(x), 4000);
+                    Check.same(operator + ": its own", x.task(6, 4), 3874);
+                } else {
+                    isBroken(operator, x);
+                }
+            }
+        }
+    }
+
+    /** "each PARTIAL one, each KEY of unique is one": half of the pairs are such ones, when the others come and wait. */
+    private static void recordsBehindThem() {
+        for (String operator : new String[] {"match d by p : 1 then 1 within 900", "unique d by p within 900", "look c d by z p"}) {
+            long few = held(halfThrough(operator, 3500));
+            int most = (int) (3500 + 4000 - few);
+            House x = halfThrough(operator, most);
+            Check.same(operator + ": records", held(x), 4000);
+            Check.same(operator + " is not broken", x.told(8), 0);
+            House y = halfThrough(operator, most + 1);
+            isBroken(operator, y);
+        }
+    }
+
+    private static House pairs(String operator, int rows) {
+        House x = Check.house(PAIRS.replace("#", "" + rows) + operator + "; output c;");
+        x.start(1, 8, 4);
+        giveBatch(x, 0, 500, 0, 63);
+        return x;
+    }
+
+    private static void giveBatch(House x, int source, int time, int from, int to) {
+        for (int i = from; i < to; i++) {
+            x.give(source, time, 1, i, 0, 0);
+        }
+    }
+
+    private static House halfThrough(String operator, int rows) {
+        House x = pairs(operator, rows);
+        giveBatch(x, 1, 500, 0, 32);
+        Check.settle(x);
+        for (int s = 0; s < 3; s++) {
+            x.give(s, 1501, 7 + s, 0, 0, 0);
+        }
+        Check.settle(x);
+        Check.same(operator + ": watermark", x.task(6, 2), 500);
+        giveBatch(x, 1, 600, 32, 63);
+        Check.settle(x);
+        return x;
+    }
+
+    /** 4000 records in the parts of each mark, mark by mark, be they sealed or given up. */
+    private static void markByMark() {
+        House x = pairs("unique d by p within 9", 3874);
+        giveBatch(x, 1, 500, 0, 63);
+        Check.settle(x);
+        for (int i = 1; i <= 6; i++) {
+            Check.same("a mark", x.mark(), i);
+            if (i % 2 == 0) {
+                for (int k = 0; k < 50 && x.told(6) != 0 && x.task(6, 8) == 0; k++) {
+                    x.turn(3);
+                }
+                x.fail();
+            }
+            Check.settle(x);
+            Check.same("not broken", x.told(8), 0);
+            Check.same("records", held(x), 4000);
+        }
     }
 
     /** Records that are over do not count any more: 4096 rows of a join go through each operator. */
@@ -210,42 +296,95 @@ public final class LimitsTest {
         Check.same("2048 things in boxes are not too many", y.told(8), 0);
     }
 
-    /** A fold's rows and its watermark come to its box at once: 3999 or 4000 rows, and one watermark. */
-    private static void boxesExactly() {
-        for (int rows = 3999; rows <= 4000; rows++) {
-            House x = Check.house("a = source 0 (k v) lag 1000; b = source 1 (k v) lag 1000; c = source 2 (k v) lag 1000; d = source 3 (k v) lag 1000;"
-                + "e = union a b; f = union c d; g = union e f; h = filter g : v; i = map h : k = k + 1000, v = v; j = union g i;"
-                + "l = fold j by k span 8 step 1 : n = count; m = filter l : 0; output m;");
-            int twice = rows == 4000 ? 250 : 249;
-            for (int i = 0; i < twice; i++) {
-                x.give(i % 4, 500, i, 1, 0, 0);
-            }
-            if (rows == 3999) {
-                // of one KEY: 15 spans
-                x.give(0, 500, 999, 0, 0, 0);
-                x.give(1, 507, 999, 0, 0, 0);
-            }
-            x.start(1, 8, 2);
-            Check.settle(x);
-            Check.same("spans", x.task(10, 4), rows);
-            Check.closeAll(x);
-            if (rows == 3999) {
-                int boxed = 0;
-                for (int i = 0; i < 60 && boxed < 3000; i++) {
-                    x.turn(5);
-                    boxed = (int) x.task(10, 3);
-                }
-                Check.same("they were in the box", boxed > 3900 ? 1 : 0, 1);
-                Check.settle(x);
-                Check.same("4000 things in boxes are not too many", x.told(8), 0);
-                Check.same("all went through", x.channel(11, 5), rows);
-            } else {
-                House before = justBefore(x);
-                Check.same("spans", before.task(10, 4), rows);
-                Check.same("the watermark is taken", before.turn(1), 1);
-                isBroken("4001 things in boxes", before);
+    /** A fold, task 10, with 3999 or 4000 spans, which end when all sources are closed. */
+    private static House manySpans(int spans, int room, String more) {
+        House x = Check.house("a = source 0 (k v) lag 1000; b = source 1 (k v) lag 1000; c = source 2 (k v) lag 1000; d = source 3 (k v) lag 1000;"
+            + "e = union a b; f = union c d; g = union e f; h = filter g : v; i = map h : k = k + 1000, v = v; j = union g i;"
+            + "l = fold j by k span 8 step 1 : n = count; m = filter l : 0; " + more + "output m;");
+        int twice = spans == 4000 ? 250 : 249;
+        for (int i = 0; i < twice; i++) {
+            x.give(i % 4, 500, i, 1, 0, 0);
+        }
+        if (spans == 3999) {
+            // of one KEY: 15 spans
+            x.give(0, 500, 999, 0, 0, 0);
+            x.give(1, 507, 999, 0, 0, 0);
+        }
+        x.start(1, room, 2);
+        Check.settle(x);
+        Check.same("spans", x.task(10, 4), spans);
+        x.mark();
+        Check.settle(x);
+        Check.closeAll(x);
+        return x;
+    }
+
+    /** As it is behind the turn in which the fold's rows come to its box. */
+    private static House boxIsFull(House x) {
+        House last = x.twin();
+        int turns = 0;
+        for (int i = 0; i < 200 && last.task(10, 4) > 0; i++) {
+            last.turn(10);
+            turns += 10;
+        }
+        for (int n = Math.max(1, turns - 9); n <= turns; n++) {
+            House y = x.twin();
+            y.turn(n);
+            if (y.task(10, 4) == 0) {
+                return y;
             }
         }
+        throw new Error("the fold did not end");
+    }
+
+    /** A fold's rows and its watermark come to its box at once: 3999 or 4000 rows, and one watermark. */
+    private static void boxesExactly() {
+        House x = manySpans(3999, 8, "");
+        for (int again = 0; again < 3; again++) {
+            // what was in boxes before a failure does not count
+            x = boxIsFull(x);
+            Check.same("things in the box, but for those that went on", x.task(10, 3), 3992);
+            Check.same("4000 things in boxes are not too many", x.told(8), 0);
+            x.fail();
+            Check.same("the box is empty", x.task(10, 3), 0);
+        }
+        Check.settle(x);
+        Check.same("all went through", x.channel(11, 5), 3999);
+        Check.same("they are not too many", x.told(8), 0);
+        House before = justBefore(manySpans(4000, 8, ""));
+        Check.same("spans", before.task(10, 4), 4000);
+        Check.same("the watermark is taken", before.turn(1), 1);
+        isBroken("4001 things in boxes", before);
+    }
+
+    /** "what it did so far is nobody's": a part for whose barriers there is no room is not written. */
+    private static void partOfABrokenTurn() {
+        House x = boxIsFull(manySpans(3999, 1, "n = filter a : 1; o = filter a : 1; p = filter a : 1; "));
+        Check.same("things in the box", x.task(10, 3), 3999);
+        x.crash(6);
+        x.mark();
+        House before = justBefore(x);
+        int written = parts(before);
+        Check.same("fewer than the sources are", written < 4 ? 1 : 0, 1);
+        before.turn(1);
+        Check.same("broken by a barrier", before.told(8), 1);
+        before.fail();
+        before.mark();
+        House down = before.twin();
+        down.turn(5000);
+        Check.same("down", down.told(9), 1);
+        before.turn(down.told(3) - before.told(3) - 1);
+        Check.same("not down", before.told(9), 0);
+        Check.same("parts that were still to be written", parts(before), 6 - written);
+    }
+
+    private static int parts(House of) {
+        House x = of.twin();
+        int parts = 0;
+        for (int t = 0; t < x.told(1); t++) {
+            parts += (int) x.task(t, 8);
+        }
+        return parts;
     }
 
     private static final String THREE = TWO + "c = source 2 (m x) lag 1000; j = join a b by k l within - 1000 1000; ";

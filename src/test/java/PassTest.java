@@ -15,6 +15,7 @@ public final class PassTest {
         whateverTheRun();
         oneBehindTheOther();
         fourThousandRows();
+        behindTooManyRows();
         Check.end();
     }
 
@@ -315,6 +316,31 @@ public final class PassTest {
         Check.feed(y, "a = source 0 (k) lag 0; output a;");
         y.job();
         right("another job", y, true);
+    }
+
+    /** A pass that was too much leaves nothing to the next one. */
+    private static void behindTooManyRows() {
+        String[] tooMany = {"j = join a b by k l within 0 0; output j;", "j = join a b by k l within 0 0; e = map j : x = 1; output e;",
+            "m = map a : x = 1; n = map b : y = 1; j = look a b by k l; i = join a b by k l within 0 0; output i;"};
+        String[] next = {"o = join a b by k l within 0 9;", "o = look a b by k l;", "o = match a by k : 1 then 1 within 9;", "o = unique a by k within 2;", "o = top 1 a by k span 3;",
+            "o = fold a by k gap 2 : n = count;", "o = fold a by k span 2 step 1 : n = count;"};
+        for (String first : tooMany) {
+            for (String second : next) {
+                House x = Check.house("a = source 0 (k) lag 0; b = source 1 (l) lag 0; " + first);
+                give(x, 0, 64);
+                give(x, 1, 64);
+                Check.same("too many rows", x.onePass() ? 1 : 0, 0);
+                Check.same("too many rows", x.onePass() ? 1 : 0, 0);
+                Check.feed(x, "a = source 0 (k) lag 0; b = source 1 (l) lag 0; " + second + " output o;");
+                x.job();
+                Check.same("nothing is given", x.onePass() ? 1 : 0, 1);
+                give(x, 0, 3);
+                give(x, 1, 2);
+                x.start(1, 8, 1);
+                Check.finish(x);
+                Check.same("right: " + second, x.onePass() ? 1 : 0, 1);
+            }
+        }
     }
 
     private static void give(House x, int source, int n) {

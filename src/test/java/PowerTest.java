@@ -21,6 +21,8 @@ public final class PowerTest {
         watermarkInTheBox();
         fromTheLatestMark();
         otherParallel();
+        markByMark();
+        togetherInOneTask();
         recordsOfTheLatest();
         toldBeforeAndBehind();
         Check.end();
@@ -408,6 +410,76 @@ public final class PowerTest {
                 Check.same("right", x.onePass() ? 1 : 0, 1);
             }
         }
+    }
+
+    /** Each mark has what there is when it is taken, and nothing of those before it. */
+    private static void markByMark() {
+        House x = Check.house("a = source 0 (k v) lag 0; u = unique a by k within 3; s = fold a by k span 4 step 2 : n = count; b = map a : l = k, w = v;"
+            + "j = join a b by k l within - 2 2; output u;");
+        x.start(2, 8, 5);
+        // W is one less than the time; how many records of KEY 1 the unique, the fold and the join have then
+        int[][] rounds = {{10, 1, 2, 2}, {10, 2, 2, 4}, {11, 2, 2, 6}, {12, 2, 2, 8}, {13, 1, 2, 6}, {30, 1, 2, 2}, {40, 1, 2, 2}};
+        for (int i = 0; i < rounds.length; i++) {
+            x.give(0, rounds[i][0], 1, i, 0, 0);
+            Check.settle(x);
+            Check.same("a mark", x.mark(), i + 1);
+            Check.settle(x);
+            Check.same("unique at mark " + (i + 1), x.records(1, 1), rounds[i][1]);
+            Check.same("fold at mark " + (i + 1), x.records(2, 1), rounds[i][2]);
+            Check.same("join at mark " + (i + 1), x.records(4, 1), rounds[i][3]);
+            House y = x.twin();
+            Check.same("fail", y.fail(), i + 1);
+            long[] held = new long[6];
+            for (int t = 0; t < y.told(1); t++) {
+                held[(int) y.task(t, 0)] += y.task(t, 4);
+            }
+            Check.same("unique behind a failure", held[1], rounds[i][1]);
+            Check.same("fold behind a failure", held[2], rounds[i][2]);
+            Check.same("join behind a failure", held[4], rounds[i][3]);
+            Check.finish(y);
+            Check.same("right", y.onePass() ? 1 : 0, 1);
+        }
+    }
+
+    /** Records of several tasks come together in one, not by their times: what is over goes, what is not stays. */
+    private static void togetherInOneTask() {
+        // KEY 0 has GROUP 0, KEY 1 has GROUP 9: of two tasks they are in the first and in the second one
+        String[] operators = {"match a by k : v = 1 then v = 2 within 9", "unique a by k within 10", "join a b by k l within 0 9", "look b a by l k"};
+        String[] due = {"59:0,50,59<0,4>", "45:1,1<1> 50:0,1<0> 60:0,7<5>"};
+        for (int i = 0; i < operators.length; i++) {
+            House x = Check.house("a = source 0 (k v) lag 20; b = source 1 (l w) lag 20; o = " + operators[i] + "; output o;");
+            x.start(2, 8, 3);
+            Check.give(x, Check.row(0, 50, 0, 1), Check.row(0, 45, 1, 1), Check.row(0, 71, 5, 0), Check.row(1, 71, 5, 0));
+            Check.settle(x);
+            Check.same(operators[i] + ": watermark", x.task(2, 2), 50);
+            x.mark();
+            Check.settle(x);
+            Check.same("rescale", x.rescale(1), 1);
+            long before = x.task(2, 4);
+            x.give(0, 75, 5, 0, 0, 0);
+            x.give(1, 75, 5, 0, 0, 0);
+            Check.settle(x);
+            Check.same(operators[i] + ": watermark", x.task(2, 2), 54);
+            // of a match, a unique and a join what came of the row at 45 goes now; the rows at 75 come
+            int[] more = {0, 0, 1, 2};
+            Check.same(operators[i] + ": records", x.task(2, 4), before + more[i]);
+            Check.give(x, Check.row(0, 59, 0, 2), Check.row(0, 60, 0, 7), Check.row(1, 59, 0, 4), Check.row(1, 55, 1, 4));
+            Check.finish(x);
+            if (i < 2) {
+                Check.same(operators[i] + ": rows", rowsOfTwoKeys(x, i == 0 ? 3 : 2), due[i]);
+            }
+            Check.same(operators[i] + ": right", x.onePass() ? 1 : 0, 1);
+        }
+    }
+
+    private static String rowsOfTwoKeys(House x, int columns) {
+        StringBuilder rows = new StringBuilder();
+        for (String row : Check.rows(x, 0, columns).split(" ")) {
+            if (!row.contains(":5,")) {
+                rows.append(rows.length() == 0 ? "" : " ").append(row);
+            }
+        }
+        return rows.toString();
     }
 
     /** "How many RECORDS of a KEY the LATEST mark has .. all its tasks together; 0 without a mark." */
