@@ -7,6 +7,7 @@ public final class LimitsTest {
         exactly();
         eachKindOfRecord();
         recordsBehindThem();
+        oneInPlaceOfAnother();
         markByMark();
         passingThrough();
         partsOfAMark();
@@ -175,6 +176,57 @@ public final class LimitsTest {
         giveBatch(x, 1, 600, 32, 63);
         Check.settle(x);
         return x;
+    }
+
+    /** Four operators with 16 records for each row of a, and a top with one for each row of b: 4000 in all. */
+    private static House exactlyFull(String operator) {
+        StringBuilder text = new StringBuilder("a = source 0 (k) lag 1000; m = map a : k = k + 64; n = union a m; o = map n : k = k + 128; p = union n o;"
+            + "q = map p : k = k + 256; r = union p q; s = map r : k = k + 512; u = union r s; ");
+        for (char name = 'w'; name <= 'z'; name++) {
+            text.append(name).append(" = ").append(operator).append("; ");
+        }
+        House x = Check.house(text + "b = source 1 (k) lag 1000; t = top 1 b by k span 1000; output b;");
+        for (int i = 0; i < 62; i++) {
+            x.give(0, 500, i, 0, 0, 0);
+        }
+        for (int i = 0; i < 32; i++) {
+            x.give(1, 500, i, 0, 0, 0);
+        }
+        x.start(1, 8, 6);
+        Check.settle(x);
+        Check.same(operator + ": records", held(x), 4000);
+        Check.same(operator + ": not broken", x.told(8), 0);
+        return x;
+    }
+
+    /** "A row that waited is none any more when it was gone through, before a PARTIAL one or a KEY comes of it; sessions that are put together are one" */
+    private static void oneInPlaceOfAnother() {
+        for (String operator : new String[] {"match u by k : 1 then 1 within 9", "unique u by k within 9"}) {
+            House x = exactlyFull(operator);
+            x.give(0, 1501, 0, 0, 0, 0);
+            // its own copies wait, so that some of those at 500 have to go before
+            turnsTillBroken(x);
+            isBroken(operator + " with more rows", x);
+            House y = exactlyFull(operator);
+            y.close(0);
+            Check.settle(y);
+            Check.same(operator + ": each row in place of itself", y.told(8), 0);
+            Check.same(operator + ": all are over", held(y), 32);
+        }
+        for (String operator : new String[] {"fold u by k gap 9 : n = count", "fold u by k span 1 step 1 : n = count"}) {
+            House x = exactlyFull(operator);
+            x.give(0, 500, 7, 0, 0, 0);
+            Check.settle(x);
+            Check.same(operator + ": a row of the same KEY is no record more", held(x), 4000);
+            Check.same(operator + ": not broken", x.told(8), 0);
+            House y = x.twin();
+            y.give(0, 500, 62, 0, 0, 0);
+            turnsTillBroken(y);
+            isBroken(operator + " with another KEY", y);
+            x.give(1, 500, 62, 0, 0, 0);
+            turnsTillBroken(x);
+            isBroken(operator + " with another row that waits", x);
+        }
     }
 
     /** 4000 records in the parts of each mark, mark by mark, be they sealed or given up. */

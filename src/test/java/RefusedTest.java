@@ -46,6 +46,7 @@ public final class RefusedTest {
             questionsChangeNothing();
         }
         jobOfAHouseThatIsDown();
+        faultsChangeNothing();
         Check.end();
     }
 
@@ -396,5 +397,30 @@ public final class RefusedTest {
         x.reopen();
         Check.feed(x, "a = source 0 (k) lag 0; output a;");
         Check.same("job of a house that is not down any more", x.job(), 2);
+    }
+
+    /** "With a FAULT the job stays as it was", and with it its run, its marks and all that was given. */
+    private static void faultsChangeNothing() {
+        String good = "p = source 3 (k v) lag 9; q = source 1 (k v) lag 0; output p; ";
+        String[] faulty = {"", good + "$", good + "1234567890123456789", good + "r", good + "5", good + "r = filter z : 1;", good + "p", good + "r = source 7", good + "output p; output p; output p; output",
+            good + "r = filter p : (((((((((((", good + "r = union p q;" + " output r"};
+        int[] faults = {3, 1, 2, 3, 4, 5, 6, 7, 8, 9, 3};
+        for (String name : new String[] {"one with a job", "one with full sources", "one that runs", "one with an open mark", "a broken one", "one that is open again"}) {
+            House before = SCENES.get(name).twin();
+            // the tape is used up
+            Check.same(name + ": no text, or what is left of one", before.job() < 0 ? 1 : 0, 1);
+            String picture = before.picture().replaceFirst("fault=\\d+ ", "");
+            String later = future(before.twin());
+            for (int i = 0; i < faulty.length; i++) {
+                House x = before.twin();
+                Check.feed(x, faulty[i]);
+                Check.same(name + ": job " + faulty[i], x.job() < 0 ? 1 : 0, 1);
+                Check.same(name + ": fault of " + faulty[i], x.fault(), faults[i]);
+                Check.same(name + " behind " + faulty[i], x.picture().replaceFirst("fault=\\d+ ", ""), picture);
+                if (faults[i] == 3) {
+                    Check.same(name + ", later, behind " + faulty[i], future(x), later);
+                }
+            }
+        }
     }
 }

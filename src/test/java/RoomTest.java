@@ -4,7 +4,7 @@ import java.lang.management.ManagementFactory;
 public final class RoomTest {
     /** Seven million fields and elements of eight bytes each are some 58 million. */
     private static final long MOST_BYTES = 8_000_000L;
-    /** What a round may make when as many went before: less than one cell. */
+    /** What a round may make when as many went before: the measuring alone, far less than a cell for each row. */
     private static final long BYTES_OF_A_ROUND = 500L;
     private static final String TWO = "a = source 0 (k v) lag 1000; b = source 1 (l w) lag 1000; ";
     private static final String[] DEAR = {
