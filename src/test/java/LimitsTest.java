@@ -179,7 +179,7 @@ public final class LimitsTest {
     }
 
     /** Four operators with 16 records for each row of a, and a top with one for each row of b: 4000 in all. */
-    private static House exactlyFull(String operator) {
+    private static House exactlyFull(String operator, int parallel) {
         StringBuilder text = new StringBuilder("a = source 0 (k) lag 1000; m = map a : k = k + 64; n = union a m; o = map n : k = k + 128; p = union n o;"
             + "q = map p : k = k + 256; r = union p q; s = map r : k = k + 512; u = union r s; ");
         for (char name = 'w'; name <= 'z'; name++) {
@@ -192,7 +192,7 @@ public final class LimitsTest {
         for (int i = 0; i < 32; i++) {
             x.give(1, 500, i, 0, 0, 0);
         }
-        x.start(1, 8, 6);
+        x.start(parallel, 8, 6);
         Check.settle(x);
         Check.same(operator + ": records", held(x), 4000);
         Check.same(operator + ": not broken", x.told(8), 0);
@@ -202,19 +202,19 @@ public final class LimitsTest {
     /** "A row that waited is none any more when it was gone through, before a PARTIAL one or a KEY comes of it; sessions that are put together are one" */
     private static void oneInPlaceOfAnother() {
         for (String operator : new String[] {"match u by k : 1 then 1 within 9", "unique u by k within 9"}) {
-            House x = exactlyFull(operator);
+            House x = exactlyFull(operator, 1);
             x.give(0, 1501, 0, 0, 0, 0);
             // its own copies wait, so that some of those at 500 have to go before
             turnsTillBroken(x);
             isBroken(operator + " with more rows", x);
-            House y = exactlyFull(operator);
+            House y = exactlyFull(operator, 2);
             y.close(0);
             Check.settle(y);
             Check.same(operator + ": each row in place of itself", y.told(8), 0);
             Check.same(operator + ": all are over", held(y), 32);
         }
         for (String operator : new String[] {"fold u by k gap 9 : n = count", "fold u by k span 1 step 1 : n = count"}) {
-            House x = exactlyFull(operator);
+            House x = exactlyFull(operator, 4);
             x.give(0, 500, 7, 0, 0, 0);
             Check.settle(x);
             Check.same(operator + ": a row of the same KEY is no record more", held(x), 4000);
@@ -295,6 +295,7 @@ public final class LimitsTest {
                     x.turn(1);
                 }
                 x.close(0);
+                House asked = x.twin();
                 x.mark();
                 if (more == 0) {
                     Check.settle(x);
@@ -306,6 +307,13 @@ public final class LimitsTest {
                     Check.same("no mark is sealed", before.told(5), 0);
                     // a turn makes 8 records at most, so that it can't be for those of states
                     byParts += held(before) <= 3900 ? 1 : 0;
+                    if (held(before) <= 3900) {
+                        // it is looked at before the part is written, by which the power would fail
+                        asked.crash(parts(before));
+                        asked.mark();
+                        turnsTillBroken(asked);
+                        Check.same("broken, but not down", 10 * asked.told(8) + asked.told(9), 10);
+                    }
                     Check.same("a thing was taken", before.turn(1), 1);
                     isBroken("4001 records in parts", before);
                 }
@@ -406,6 +414,7 @@ public final class LimitsTest {
         House before = justBefore(manySpans(4000, 8, ""));
         Check.same("spans", before.task(10, 4), 4000);
         Check.same("the watermark is taken", before.turn(1), 1);
+        nothingIsLeft(before);
         isBroken("4001 things in boxes", before);
     }
 
@@ -564,7 +573,22 @@ public final class LimitsTest {
         Check.same("nearly 30000", sets > 25000 && sets <= 30000 ? 1 : 0, 1);
         Check.same("a thing is taken", before.turn(1), 1);
         Check.same("sets of the turn are not counted", before.told(12), sets);
+        nothingIsLeft(before);
         isBroken("more than 30000 sets", before);
+    }
+
+    /** "what it did so far is nobody's": rows that a broken turn made do not come out of another run. */
+    private static void nothingIsLeft(House of) {
+        House x = of.twin();
+        Check.same("it is broken", x.told(8), 1);
+        Check.feed(x, "a = source 0 (k v) lag 9; f = filter a : 1; output f;");
+        x.job();
+        x.give(0, 5, 7, 8, 0, 0);
+        x.start(2, 2, 2);
+        Check.finish(x);
+        Check.same("rows of another job", Check.rows(x, 0, 2), "5:7,8<0>");
+        Check.same("right", x.onePass() ? 1 : 0, 1);
+        Check.same("sets", x.told(12), 1);
     }
 
     /** "the turn ends .. (its thing was taken, or its row read, and counts in turn()'s answer); further turns do nothing" */
