@@ -145,22 +145,31 @@ final class Check {
         settle(x);
     }
 
-    /** The visible rows of an output: time:columns, and in angles what they were made of. */
+    /** The visible rows of an output: time:columns, and in angles what they were made of; asked of twins. */
     static String rows(House of, int output, int columns) {
         House x = of.twin();
+        int count = x.visible(output);
         StringJoiner all = new StringJoiner(" ");
-        for (int i = 0; i < x.visible(output); i++) {
+        for (int i = 0; i < count; i++) {
             StringJoiner row = new StringJoiner(",");
+            x = ready(of, x, columns + 2);
             for (int c = 0; c < columns; c++) {
                 row.add(Long.toString(x.row(output, i, c)));
             }
+            String time = x.row(output, i, StreamHouse.NONE) + ":";
             StringJoiner made = new StringJoiner(",", "<", ">");
-            for (int k = 0; k < x.lineage(output, i, StreamHouse.NONE); k++) {
+            int members = x.lineage(output, i, StreamHouse.NONE);
+            for (int k = 0; k < members; k++) {
+                x = ready(of, x, 1);
                 made.add(Integer.toString(x.lineage(output, i, k)));
             }
-            all.add(x.row(output, i, StreamHouse.NONE) + ":" + row + made);
+            all.add(time + row + made);
         }
         return all.toString();
+    }
+
+    private static House ready(House of, House x, int calls) {
+        return x.callsLeft() < calls ? of.twin() : x;
     }
 
     /** A seed for which the first turns go to these tasks, a letter for each: A is task 0, B task 1. */
