@@ -6,6 +6,7 @@ public final class RoomTest {
     private static final long MOST_BYTES = 8_000_000L;
     /** What a round may make when as many went before: the measuring alone, far less than a cell for each row. */
     private static final long BYTES_OF_A_ROUND = 500L;
+    private static final int ROUNDS = 8;
     private static final String TWO = "a = source 0 (k v) lag 1000; b = source 1 (l w) lag 1000; ";
     private static final String[] DEAR = {
         TWO + "f = fold a by v span 1000 step 125 : n = count; g = fold a by v span 800 step 100 : n = count;"
@@ -44,8 +45,13 @@ public final class RoomTest {
 
     private static StreamHouse house(String job) {
         StreamHouse x = new StreamHouse();
-        for (int i = 0; i < job.length(); i++) {
-            x.feed(job.charAt(i), 1);
+        for (int at = 0; at < job.length(); at += 8) {
+            int n = Math.min(8, job.length() - at);
+            long bytes = 0;
+            for (int i = 0; i < n; i++) {
+                bytes = bytes << 8 | job.charAt(at + i);
+            }
+            x.feed(bytes, n);
         }
         Check.same("job " + job, x.job() > 0 ? 1 : 0, 1);
         return x;
@@ -100,15 +106,16 @@ public final class RoomTest {
             x.give(1, i + i * 5 % 9, i % 3, i % 6, 0, 0);
         }
         closeAll(x);
-        for (int i = 0; i < 12; i++) {
+        // a job of 25 calls at most, 124 calls that give and close, and 16 rounds of 18
+        for (int i = 0; i < ROUNDS; i++) {
             steadyRound(x, i % 4);
         }
         long before = allocated();
-        for (int i = 0; i < 12; i++) {
+        for (int i = 0; i < ROUNDS; i++) {
             steadyRound(x, i % 4);
         }
         long made = allocated() - before;
-        Check.same(made + " bytes of rounds of " + job, made < 12 * BYTES_OF_A_ROUND ? 1 : 0, 1);
+        Check.same(made + " bytes of rounds of " + job, made < ROUNDS * BYTES_OF_A_ROUND ? 1 : 0, 1);
     }
 
     private static void steadyRound(StreamHouse x, int kind) {
