@@ -18,6 +18,7 @@ public final class TapeTest {
         keywordsAreNoNames();
         digitsOfANumber();
         whereTheTextEnds();
+        nothingOfTheTextBefore();
         Check.end();
     }
 
@@ -250,5 +251,28 @@ public final class TapeTest {
         }
         text(whole, 5, 0);
         text(whole + " ", 5, 0);
+    }
+
+    /** A text ends where its bytes do, whatever a longer one before had there. */
+    private static void nothingOfTheTextBefore() {
+        String[] before = {"1".repeat(60), "a".repeat(60), " ".repeat(60), ";".repeat(60), "$".repeat(60)};
+        String[] texts = {"a = source 1", "a = sou", "a = source 1 (k) lag 123456789012345678", "a = source 1 (k) lag 0; ", "a = source 1 (k) lag 0; output", "a = source 1 (k) lag 0; output a"};
+        int[] faults = {3, 4, 7, 3, 3, 3};
+        int[] places = {12, 4, 21, 24, 30, 32};
+        for (String longer : before) {
+            for (int i = 0; i < texts.length; i++) {
+                House x = new House();
+                Check.feed(x, longer);
+                x.job();
+                Check.feed(x, texts[i]);
+                Check.same("job of " + texts[i] + " behind " + longer, x.job(), -1 - places[i]);
+                Check.same("fault of " + texts[i] + " behind " + longer, x.fault(), faults[i]);
+            }
+            House x = new House();
+            Check.feed(x, longer);
+            x.job();
+            Check.feed(x, "a=source 0(k)lag 1;output a;");
+            Check.same("a good text behind " + longer, x.job(), 2);
+        }
     }
 }

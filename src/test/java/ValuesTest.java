@@ -18,6 +18,7 @@ public final class ValuesTest {
         justIfItMatters();
         pairs();
         trees();
+        behindBadOnes();
         Check.end();
     }
 
@@ -348,5 +349,20 @@ public final class ValuesTest {
             Tree tree = tree(1 + i % 5);
             value(tree.text(0), tree.worth());
         }
+    }
+
+    /** A VALUE that is BAD leaves nothing to the next one, wherever it was given up. */
+    private static void behindBadOnes() {
+        String deep = "1 = 1 + 1 * (2 = 1 + 1 * (3 = 1 + 1 * (4 = 1 + 1 * (5 = 1 + 1 / (k - 7)))))";
+        House x = Check.house(HEAD + "b = map a : x = " + deep + ", y = k + v * 2; output b;");
+        for (int i = 0; i < 60; i++) {
+            x.give(0, TIME, 7, i, 0, 0);
+        }
+        x.give(0, TIME, 8, 5, 0, 0);
+        x.give(0, TIME, 3, 6, 0, 0);
+        x.start(1, 8, 1);
+        Check.finish(x);
+        Check.same("aside", x.task(1, 6), 60);
+        Check.same("rows", Check.rows(x, 0, 2), "20:1,15<61> 20:1,18<60>");
     }
 }
