@@ -1747,9 +1747,6 @@ public final class StreamHouse {
 
         private static int orderOf(int kind, int chain) {
             switch (kind) {
-                case SPANS:
-                case GAPS:
-                    return Chain.BY_FOLDS;
                 case TOP:
                     return Chain.BY_TOP;
                 case LOOK:
@@ -1802,7 +1799,7 @@ public final class StreamHouse {
                 session.from = row.time;
                 addNearTo(op, task.a, session, row.time);
                 countRecord();
-                task.a.insert(session, Chain.BY_FOLDS, 0);
+                task.a.add(session);
             } else {
                 long step = Math.max(1, op.step);
                 long lastStart = Math.floorDiv(row.time, step) * step;
@@ -1811,7 +1808,7 @@ public final class StreamHouse {
                     long last = start + op.span - 1;
                     if (!addToSpan(op, task.a, row, last)) {
                         countRecord();
-                        task.a.insert(newFold(op, row, last), Chain.BY_FOLDS, 0);
+                        task.a.add(newFold(op, row, last));
                     }
                 }
             }
@@ -1843,7 +1840,7 @@ public final class StreamHouse {
 
         /** Whether the KEY has that span already. */
         private boolean addToSpan(Op op, Chain spans, Cell row, long last) {
-            for (Cell c = spans.first; c != null && c.time <= last; c = c.next) {
+            for (Cell c = spans.first; c != null; c = c.next) {
                 if (c.time == last && c.key == row.key) {
                     c.set = pool.together(c.set, row.set);
                     addUp(op, c.columns, amounts);
@@ -1853,7 +1850,10 @@ public final class StreamHouse {
             return false;
         }
 
-        /** Sessions that are near to the time of a new one are taken into it. */
+        /**
+         * Sessions that are near to the time of a new one are taken into it, one by one as they came: which SETS are
+         * made anew can depend on that.
+         */
         private void addNearTo(Op op, Chain sessions, Cell session, long time) {
             Cell before = null;
             Cell c = sessions.first;
@@ -1886,17 +1886,32 @@ public final class StreamHouse {
             }
         }
 
+        /** Spans and sessions that are over become rows, in order, which is not the one in which they are kept. */
         private void endFolds(Op op, Task task, long w, int more) {
-            for (Cell c = task.a.first; c != null && c.time + more <= w; c = task.a.first) {
-                task.a.takeFirst();
-                records--;
-                c.time += more;
-                for (int i = Math.min(op.valueCount, MOST_COLUMNS - 1); i > 0; i--) {
-                    c.columns[i] = c.columns[i - 1];
+            Cell before = null;
+            Cell c = task.a.first;
+            while (c != null) {
+                Cell next = c.next;
+                if (c.time + more <= w) {
+                    task.a.cutBehind(before);
+                    records--;
+                    made.insert(c, Chain.BY_FOLDS, 0);
+                } else {
+                    before = c;
                 }
-                c.columns[0] = c.key;
-                made.add(c);
+                c = next;
             }
+            for (Cell row = made.first; row != null; row = row.next) {
+                becomeRow(op, row, more);
+            }
+        }
+
+        private static void becomeRow(Op op, Cell fold, int more) {
+            fold.time += more;
+            for (int i = Math.min(op.valueCount, MOST_COLUMNS - 1); i > 0; i--) {
+                fold.columns[i] = fold.columns[i - 1];
+            }
+            fold.columns[0] = fold.key;
         }
 
         private void joinRow(Op op, Task task, int input, Cell row) {
