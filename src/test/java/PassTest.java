@@ -7,7 +7,10 @@ public final class PassTest {
         bySourcesThenPlaces();
         ofEachOperator();
         setsThatAreTheSame();
-        setsOfSessions();
+        setsOfSessions(false, false);
+        setsOfSessions(true, false);
+        setsOfSessions(false, true);
+        setsOfSessions(true, true);
         setsOfRowsThatNobodyTakes();
         notRightYet();
         eachAsOften();
@@ -112,32 +115,36 @@ public final class PassTest {
      * A row between two sessions, of which one has the same SET, is put together with them as they came: with that one
      * first no SET is made but one for both, with it behind the other one there are two.
      */
-    private static void setsOfSessions() {
-        String job = "a = source 0 (k) lag 0; b = source 1 (k) lag 0; c = source 2 (k) lag 0; f = fold a by k span 20 step 20 : n = count;"
+    private static void setsOfSessions(boolean otherFirst, boolean again) {
+        House x = Check.house("a = source 0 (k) lag 0; b = source 1 (k) lag 0; c = source 2 (k) lag 0; f = fold a by k span 20 step 20 : n = count;"
             + "h = union a c; q = unique h by k within 1; m = map q : k = k, n = 1; p = map b : k = k, n = 1;"
-            + "u = union f m; w = union u p; o = fold w by n gap 10 : z = count; output o;";
-        for (int otherFirst = 0; otherFirst <= 1; otherFirst++) {
-            House x = Check.house(job);
-            x.give(0, 10, 1, 0, 0, 0);
-            x.start(1, 8, 3);
-            // the row of time 10 waits for source 2 till the fold's row of time 19, made of it, and one of time 5 have come
-            for (int i = 0; i < 2; i++) {
-                if (i == otherFirst) {
-                    x.close(0);
-                } else {
-                    x.give(1, 5, 1, 0, 0, 0);
-                }
-                Check.settle(x);
+            + "u = union f m; w = union u p; o = fold w by n gap 10 : z = count; output o;");
+        x.give(0, 10, 1, 0, 0, 0);
+        x.start(1, 8, 3);
+        // the row of time 10 waits for source 2 till the fold's row of time 19, made of it, and one of time 5 have come
+        for (int i = 0; i < 2; i++) {
+            if (otherFirst == (i == 0)) {
+                x.give(1, 5, 1, 0, 0, 0);
+            } else {
+                x.close(0);
             }
-            Check.same("sessions", x.task(10, 4), 2);
-            Check.same("sets of two rows", x.told(12), 2);
-            x.close(2);
             Check.settle(x);
-            Check.same("one session", x.task(10, 4), 1);
-            Check.same("sets of sessions that are put together", x.told(12), 3 + otherFirst);
-            Check.finish(x);
-            Check.same("a row of both", Check.rows(x, 0, 2), "28:1,3<0,64>");
         }
+        if (again) {
+            x.mark();
+            Check.settle(x);
+            x.rescale(3);
+            x.rescale(1);
+            Check.settle(x);
+        }
+        Check.same("sessions", x.task(10, 4), 2);
+        Check.same("sets of two rows", x.told(12), 2);
+        x.close(2);
+        Check.settle(x);
+        Check.same("one session", x.task(10, 4), 1);
+        Check.same("sets of sessions that are put together", x.told(12), otherFirst ? 4 : 3);
+        Check.finish(x);
+        Check.same("a row of both", Check.rows(x, 0, 2), "28:1,3<0,64>");
     }
 
     /** "with each row that a source reads that is not LATE (also if nobody takes it)" */
